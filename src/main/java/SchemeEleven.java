@@ -256,6 +256,10 @@ public final class SchemeEleven {
         return k == 9 ? benchSteps : bench.told(k);
     }
 
+    private static boolean isPrimitive(int value) {
+        return (value & 1) == 0 && value >= PRIMITIVE && value < PRIMITIVE + 2 * PRIMITIVES;
+    }
+
     private void tapeFour(int four) {
         for (int shift = 24; shift >= 0; shift -= 8) {
             if (taped < TEXT_MOST) {
@@ -321,7 +325,10 @@ public final class SchemeEleven {
         reader.readAll(bytes, length);
         for (int i = 0; i < reader.forms && i < FORMS_MOST && text.fault == 0; i++) {
             starts[i] = image.codeEnd;
-            coder.codeForm(reader.formAt(i));
+            coder.beginForm(reader.formAt(i));
+            for (int step = 0; step < Coder.STEPS_MOST && coder.isBusy(); step++) {
+                coder.work();
+            }
         }
         if (text.fault != 0) {
             image.takeBack();
@@ -360,12 +367,14 @@ public final class SchemeEleven {
         }
 
         int at(int place) {
-            return holds(place) ? cells[place >> 1] : 0;
+            int i = place >> 1;
+            return (place & 1) == 0 && i >= 0 && i < cells.length ? cells[i] : 0;
         }
 
         void put(int place, int value) {
-            if (holds(place)) {
-                cells[place >> 1] = value & MASK;
+            int i = place >> 1;
+            if ((place & 1) == 0 && i >= 0 && i < cells.length) {
+                cells[i] = value & MASK;
             }
         }
 
@@ -1010,13 +1019,13 @@ public final class SchemeEleven {
             return place;
         }
 
-        private int wordsOf(int place) {
-            return Math.max(machine.at(place) >> 4, 1);
+        private static int wordsOf(int head) {
+            return Math.max(head >> 4, 1);
         }
 
         private void findObjects() {
             Arrays.fill(states, 0);
-            for (int place = HEAP; place < end && place < HEAP_END; place += 2 * wordsOf(place)) {
+            for (int place = HEAP; place < end && place < HEAP_END; place += 2 * wordsOf(machine.at(place))) {
                 states[place - HEAP >> 1] = OBJECT;
             }
         }
@@ -1044,7 +1053,7 @@ public final class SchemeEleven {
             for (int i = 0; i < WORDS && opened > 0; i++) {
                 opened--;
                 int place = open[opened];
-                int words = wordsOf(place);
+                int words = wordsOf(machine.at(place));
                 for (int j = 1; j < words; j++) {
                     reach(machine.at(place + 2 * j));
                 }
@@ -1053,11 +1062,11 @@ public final class SchemeEleven {
 
         private void tellNewPlaces() {
             int next = HEAP;
-            for (int place = HEAP; place < end && place < HEAP_END; place += 2 * wordsOf(place)) {
+            for (int place = HEAP; place < end && place < HEAP_END; place += 2 * wordsOf(machine.at(place))) {
                 int i = place - HEAP >> 1;
                 if (states[i] == REACHED) {
                     states[i] = next;
-                    next += 2 * wordsOf(place);
+                    next += 2 * wordsOf(machine.at(place));
                 } else {
                     states[i] = 0;
                 }
@@ -1085,7 +1094,7 @@ public final class SchemeEleven {
             int next = HEAP;
             int words = 1;
             for (int place = HEAP; place < end && place < HEAP_END; place += 2 * words) {
-                words = wordsOf(place);
+                words = wordsOf(machine.at(place));
                 if (states[place - HEAP >> 1] >= HEAP) {
                     for (int j = 0; j < words; j++) {
                         machine.put(next, followed(machine.at(place + 2 * j)));
@@ -1126,7 +1135,8 @@ public final class SchemeEleven {
         }
 
         void display(int value) {
-            render(value);
+            begin();
+            part(value, 0);
             for (int i = 0; i < length && i < line.length; i++) {
                 print(line[i]);
             }
@@ -1141,10 +1151,14 @@ public final class SchemeEleven {
         }
 
         void render(int value) {
+            begin();
+            part(value, 0);
+        }
+
+        private void begin() {
             length = 0;
             parts = 0;
             ended = false;
-            part(value, 0);
         }
 
         private void put(int letter) {
@@ -1155,18 +1169,25 @@ public final class SchemeEleven {
         }
 
         private void part(int value, int within) {
-            boolean pair = heap.kind(value) == PAIR;
+            int kind = heap.kind(value);
             if (parts >= PARTS_MOST) {
                 put('%');
                 ended = true;
-            } else if (!pair) {
-                parts++;
-                simple(value);
-            } else if (within >= WITHIN_MOST) {
-                parts++;
-                put('%');
-            } else {
+                return;
+            }
+            if (kind == PAIR && within < WITHIN_MOST) {
                 list(value, within);
+                return;
+            }
+            parts++;
+            if (kind == PAIR) {
+                put('%');
+            } else if ((value & 1) != 0) {
+                digits((short) value >> 1);
+            } else if (kind == SYMBOL) {
+                name(heap.machine.at(value + 4));
+            } else {
+                mark(value, kind);
             }
         }
 
@@ -1191,20 +1212,6 @@ public final class SchemeEleven {
             }
         }
 
-        private void simple(int value) {
-            int kind = heap.kind(value);
-            if ((value & 1) != 0) {
-                digits((short) value >> 1);
-            } else if (kind == SYMBOL) {
-                name(heap.machine.at(value + 4));
-            } else if (value == NIL) {
-                put('(');
-                put(')');
-            } else {
-                mark(value, kind);
-            }
-        }
-
         private void mark(int value, int kind) {
             int letter = 0;
             if (value == TRUE) {
@@ -1213,18 +1220,16 @@ public final class SchemeEleven {
                 letter = 'f';
             } else if (value == NOTHING) {
                 letter = 'u';
-            } else if (isProcedure(value, kind)) {
+            } else if (isPrimitive(value) || kind == CLOSURE || kind == CONTINUATION) {
                 letter = 'p';
             }
-            if (letter != 0) {
+            if (value == NIL) {
+                put('(');
+                put(')');
+            } else if (letter != 0) {
                 put('#');
                 put(letter);
             }
-        }
-
-        static boolean isProcedure(int value, int kind) {
-            boolean primitive = (value & 1) == 0 && value >= PRIMITIVE && value < PRIMITIVE + 2 * PRIMITIVES;
-            return primitive || kind == CLOSURE || kind == CONTINUATION;
         }
 
         private void name(int symbol) {
@@ -1332,8 +1337,10 @@ public final class SchemeEleven {
                 if (!underWay) {
                     beginForm();
                 }
-                int stop = machine.step();
-                int end = stop == 0 ? 0 : stop == TRAPPED ? trap(machine.instruction & 255) : UNBOUND;
+                int end = machine.step();
+                if (end == TRAPPED) {
+                    end = trap(machine.instruction & 255);
+                }
                 if (end == FORM_DONE) {
                     endForm();
                     if (waits == 0) {
@@ -1370,7 +1377,10 @@ public final class SchemeEleven {
                 case 0: return push();
                 case 1: return makeFrame();
                 case 2: return makeClosure();
-                case 3: return call();
+                case 3:
+                    collect();
+                    int end = isPrimitive(procedure) ? primitive(procedure - PRIMITIVE >> 1) : call();
+                    return end == RETURNS ? goBack() : end;
                 case 4: return goBack();
                 default: return UNBOUND;
             }
@@ -1445,28 +1455,19 @@ public final class SchemeEleven {
         }
 
         private int call() {
-            collect();
             int kind = heap.kind(procedure);
             if (kind == CLOSURE) {
                 return enter();
             }
-            if (kind == CONTINUATION) {
-                if (arguments != 1) {
-                    return COUNT;
-                }
-                r[2] = machine.at(procedure + 2);
-                r[0] = argument(0);
-                return goBack();
-            }
-            if (!Scribe.isProcedure(procedure, kind)) {
+            if (kind != CONTINUATION) {
                 return NO_PROCEDURE;
             }
-            int end = primitive(procedure - PRIMITIVE >> 1);
-            if (end != RETURNS) {
-                return end;
+            if (arguments != 1) {
+                return COUNT;
             }
-            r[3] = NIL;
-            return goBack();
+            r[2] = machine.at(procedure + 2);
+            r[0] = argument(0);
+            return RETURNS;
         }
 
         private int enter() {
@@ -1521,17 +1522,24 @@ public final class SchemeEleven {
                 case 18: return comparison(k);
                 case 19: return callWithContinuation();
                 case 20: return apply();
+                case 21:
+                    scribe.display(argument(0));
+                    return given(NOTHING);
+                case 22:
+                    scribe.print(10);
+                    return given(NOTHING);
                 case 23: return answer(argument(0) == FALSE);
                 case 24: return list();
                 case 25:
                     r[0] = argument(0);
                     return RAISED;
-                default: return exchange(k);
+                default: return readInput();
             }
         }
 
         private int given(int value) {
             r[0] = value;
+            r[3] = NIL;
             return RETURNS;
         }
 
@@ -1546,7 +1554,7 @@ public final class SchemeEleven {
                 case 7: return value == NIL;
                 case 8: return (value & 1) != 0;
                 case 9: return kind == SYMBOL;
-                case 10: return Scribe.isProcedure(value, kind);
+                case 10: return isPrimitive(value) || kind == CLOSURE || kind == CONTINUATION;
                 default: return value == TRUE || value == FALSE;
             }
         }
@@ -1671,15 +1679,7 @@ public final class SchemeEleven {
             return given(made);
         }
 
-        private int exchange(int k) {
-            if (k == 21) {
-                scribe.display(argument(0));
-                return given(NOTHING);
-            }
-            if (k == 22) {
-                scribe.print(10);
-                return given(NOTHING);
-            }
+        private int readInput() {
             if (inputs == 0) {
                 return given(FALSE);
             }
@@ -1738,96 +1738,78 @@ public final class SchemeEleven {
             }
         }
 
-        int add(int tag, int first, int second) {
+        /** Parts of a pair; a constant's word; a symbol; the name of an alias and the scope of that. */
+        int add(int kind, int place, int symbol, int first, int second) {
             int d = Math.min(used, SIZE - 1);
-            tags[d] = tag;
+            tags[d] = kind + 8 * place + 16384 * symbol;
             firsts[d] = first;
             seconds[d] = second;
             used = d + 1;
             return d;
         }
 
-        int addCons(int place, int first, int second) {
-            return add(CONS + 8 * place, first, second);
-        }
-
-        int addName(int place, int symbol) {
-            return add(NAME + 8 * place + 16384 * symbol, symbol, 0);
-        }
-
-        int addAlias(int place, int of, int scope, int symbol) {
-            return add(ALIAS + 8 * place + 16384 * symbol, of, scope);
-        }
-
-        private boolean exists(int d) {
-            return d >= 0 && d < SIZE;
-        }
-
         int kind(int d) {
-            return exists(d) ? tags[d] & 7 : EMPTY;
+            return d >= 0 && d < SIZE ? tags[d] & 7 : EMPTY;
         }
 
         int place(int d) {
-            return exists(d) ? tags[d] >> 3 & 2047 : 0;
+            return d >= 0 && d < SIZE ? tags[d] >> 3 & 2047 : 0;
         }
 
-        /** The word of a constant or of (). */
-        int wordOf(int d) {
-            return exists(d) && (tags[d] & 7) <= CONSTANT ? firsts[d] : 0;
-        }
-
-        /** The name that an alias stands for, where the macro was told. */
-        int aliasedName(int d) {
-            return kind(d) == ALIAS ? firsts[d] : NONE;
-        }
-
-        int aliasScope(int d) {
-            return kind(d) == ALIAS ? seconds[d] : 0;
+        boolean isCons(int d) {
+            return d >= 0 && d < SIZE && (tags[d] & 7) == CONS;
         }
 
         int first(int d) {
-            return isCons(d) ? firsts[d] : NONE;
+            return d >= 0 && d < SIZE && (tags[d] & 7) == CONS ? firsts[d] : NONE;
         }
 
         int rest(int d) {
-            return isCons(d) ? seconds[d] : NONE;
+            return d >= 0 && d < SIZE && (tags[d] & 7) == CONS ? seconds[d] : NONE;
         }
 
         void setFirst(int d, int part) {
-            if (exists(d)) {
+            if (d >= 0 && d < SIZE) {
                 firsts[d] = part;
             }
         }
 
         void setRest(int d, int part) {
-            if (exists(d)) {
+            if (d >= 0 && d < SIZE) {
                 seconds[d] = part;
             }
         }
 
-        boolean isCons(int d) {
-            return exists(d) && (tags[d] & 7) == CONS;
-        }
-
         boolean isName(int d) {
-            return exists(d) && ((tags[d] & 7) == NAME || (tags[d] & 7) == ALIAS);
+            return d >= 0 && d < SIZE && ((tags[d] & 7) == NAME || (tags[d] & 7) == ALIAS);
         }
 
         /** What tells one name from all others: a symbol's number, or an alias's behind all of these. */
         int nameOf(int d) {
-            if (!isName(d)) {
-                return NONE;
+            int kind = d >= 0 && d < SIZE ? tags[d] & 7 : EMPTY;
+            if (kind == NAME) {
+                return firsts[d];
             }
-            return (tags[d] & 7) == NAME ? firsts[d] : ALIASES + d;
+            return kind == ALIAS ? ALIASES + d : NONE;
         }
 
         int symbolAtLast(int d) {
-            return isName(d) ? tags[d] >> 14 : NONE;
+            boolean isName = d >= 0 && d < SIZE && ((tags[d] & 7) == NAME || (tags[d] & 7) == ALIAS);
+            return isName ? tags[d] >> 14 : NONE;
         }
 
-        /** Whether the part that begins here is followed by the dots. */
-        boolean repeats(int d) {
-            return isCons(d) && isCons(seconds[d]) && symbolAtLast(firsts[seconds[d]]) == DOTS;
+        /** The name that an alias stands for where its macro was told. */
+        int aliasedName(int d) {
+            return d >= 0 && d < SIZE && (tags[d] & 7) == ALIAS ? firsts[d] : NONE;
+        }
+
+        int aliasScope(int d) {
+            return d >= 0 && d < SIZE && (tags[d] & 7) == ALIAS ? seconds[d] : 0;
+        }
+
+        /** The word of a constant or of (). */
+        int wordOf(int d) {
+            return d >= 0 && d < SIZE && (tags[d] & 7) <= CONSTANT ? firsts[d] : 0;
         }
 
         /** How many parts a list has; NONE of what doesn't end with (). */
@@ -1883,31 +1865,29 @@ public final class SchemeEleven {
             keptUsed = 0;
         }
 
-        private int addKept(int d) {
-            int to = half * KEPT + Math.min(keptUsed, KEPT - 1);
-            keptUsed++;
-            tags[to] = exists(d) ? tags[d] : EMPTY;
-            firsts[to] = exists(d) ? firsts[d] : NONE;
-            seconds[to] = exists(d) ? seconds[d] : NONE;
-            return to;
-        }
-
         int keep(int d) {
             return copy(d, 0);
         }
 
         private int copy(int d, int depth) {
-            int to = addKept(d);
-            if (!isCons(to) || depth > DEEPEST) {
-                return to;
-            }
-            int last = to;
-            for (int i = 0; i < KEPT && isCons(last); i++) {
+            int head = addKept(d);
+            int last = head;
+            for (int i = 0; i < KEPT && depth < DEEPEST && isCons(last); i++) {
                 setFirst(last, copy(firsts[last], depth + 1));
                 int next = addKept(seconds[last]);
                 setRest(last, next);
                 last = next;
             }
+            return head;
+        }
+
+        private int addKept(int d) {
+            int to = half * KEPT + Math.min(keptUsed, KEPT - 1);
+            keptUsed++;
+            boolean there = d >= 0 && d < SIZE;
+            tags[to] = there ? tags[d] : EMPTY;
+            firsts[to] = there ? firsts[d] : NONE;
+            seconds[to] = there ? seconds[d] : NONE;
             return to;
         }
     }
@@ -1929,6 +1909,8 @@ public final class SchemeEleven {
         private final int[] lists = new int[OPEN_MOST];
         private final int[] lasts = new int[OPEN_MOST];
         private int open;
+        /** The datum that a token has ended, or NONE. */
+        private int ended;
 
         Reader(Text text, Image image) {
             this.text = text;
@@ -1945,7 +1927,17 @@ public final class SchemeEleven {
             open = 0;
             int at = skipBlanks(bytes, length, 0);
             for (int i = 0; i < length && at < length && text.fault == 0; i++) {
-                at = skipBlanks(bytes, length, readToken(bytes, length, at));
+                ended = NONE;
+                int end = endOfToken(bytes, length, at);
+                if (bytes[at] == '(' || bytes[at] == '\'' || bytes[at] == ')') {
+                    readMark(bytes[at], at);
+                } else {
+                    readRow(bytes, at, end);
+                }
+                if (ended != NONE) {
+                    deliver(ended);
+                }
+                at = skipBlanks(bytes, length, end);
             }
             if (open > 0) {
                 text.fail(READ, length);
@@ -1981,27 +1973,13 @@ public final class SchemeEleven {
             }
         }
 
-        /** Where the token's bytes end. */
-        private int readToken(int[] bytes, int length, int at) {
-            int c = bytes[at];
-            if (c == '(' || c == '\'') {
-                openDatum(at, c == '(' ? PARTS : QUOTED);
+        private static int endOfToken(int[] bytes, int length, int at) {
+            if (bytes[at] != '#' && !isSign(bytes[at])) {
                 return at + 1;
             }
-            if (c == ')') {
-                closeList(at);
-                return at + 1;
-            }
-            int end = c == '#' ? at + 1 : at;
+            int end = at + 1;
             while (end < length && isSign(bytes[end])) {
                 end++;
-            }
-            if (c == '#') {
-                readBoolean(at, end == at + 2 ? bytes[at + 1] : 0);
-            } else if (end == at) {
-                text.fail(READ, at);
-            } else {
-                readRow(bytes, at, end);
             }
             return end;
         }
@@ -2014,7 +1992,11 @@ public final class SchemeEleven {
             return may;
         }
 
-        private void openDatum(int at, int state) {
+        private void readMark(int mark, int at) {
+            if (mark == ')') {
+                closeList(at);
+                return;
+            }
             if (!mayStand(at)) {
                 return;
             }
@@ -2022,7 +2004,7 @@ public final class SchemeEleven {
                 text.fail(READ, at);
                 return;
             }
-            states[open] = state;
+            states[open] = mark == '(' ? PARTS : QUOTED;
             begins[open] = at;
             lists[open] = NONE;
             lasts[open] = NONE;
@@ -2036,33 +2018,37 @@ public final class SchemeEleven {
                 return;
             }
             open--;
-            int list = lists[open];
-            if (list == NONE) {
-                list = text.add(Text.EMPTY + 8 * begins[open], NIL, NONE);
+            ended = lists[open];
+            if (ended == NONE) {
+                ended = text.add(Text.EMPTY, begins[open], 0, NIL, NONE);
             } else if (state == PARTS) {
-                text.setRest(lasts[open], text.add(Text.EMPTY + 8 * at, NIL, NONE));
+                text.setRest(lasts[open], text.add(Text.EMPTY, at, 0, NIL, NONE));
             }
-            deliver(list);
+        }
+
+        /** A row of the signs of names, or # and such a row, or a byte that begins no token. */
+        private void readRow(int[] bytes, int at, int end) {
+            int c = bytes[at];
+            if (c == '#') {
+                readBoolean(at, end == at + 2 ? bytes[at + 1] : 0);
+            } else if (!isSign(c)) {
+                text.fail(READ, at);
+            } else if (isDigit(c) || c == '-' && end > at + 1 && isDigit(bytes[at + 1])) {
+                readNumber(bytes, at, end);
+            } else if (c == '.' && end == at + 1) {
+                readPoint(at);
+            } else if (end - at > LETTERS_MOST) {
+                text.fail(READ, at);
+            } else if (mayStand(at)) {
+                readName(bytes, at, end - at);
+            }
         }
 
         private void readBoolean(int at, int letter) {
             if (letter != 't' && letter != 'f') {
                 text.fail(READ, at);
             } else if (mayStand(at)) {
-                deliver(text.add(Text.CONSTANT + 8 * at, letter == 't' ? TRUE : FALSE, NONE));
-            }
-        }
-
-        private void readRow(int[] bytes, int at, int end) {
-            boolean minus = bytes[at] == '-';
-            if (isDigit(bytes[at]) || minus && end > at + 1 && isDigit(bytes[at + 1])) {
-                readNumber(bytes, at, end);
-            } else if (bytes[at] == '.' && end == at + 1) {
-                readPoint(at);
-            } else if (end - at > LETTERS_MOST) {
-                text.fail(READ, at);
-            } else if (mayStand(at)) {
-                readName(bytes, at, end - at);
+                ended = text.add(Text.CONSTANT, at, 0, letter == 't' ? TRUE : FALSE, NONE);
             }
         }
 
@@ -2079,7 +2065,7 @@ public final class SchemeEleven {
             if (!good || value < -16384 || value > 16383) {
                 text.fail(READ, at);
             } else if (mayStand(at)) {
-                deliver(text.add(Text.CONSTANT + 8 * at, 2 * value + 1 & MASK, NONE));
+                ended = text.add(Text.CONSTANT, at, 0, 2 * value + 1 & MASK, NONE);
             }
         }
 
@@ -2104,7 +2090,7 @@ public final class SchemeEleven {
                 text.fail(FULL, at);
                 return;
             }
-            deliver(text.addName(at, symbol));
+            ended = text.add(Text.NAME, at, symbol, symbol, NONE);
         }
 
         /** The datum goes to what is open around it, which a quote's datum ends. */
@@ -2123,9 +2109,10 @@ public final class SchemeEleven {
         }
 
         private int quoted(int at, int datum) {
-            int end = text.add(Text.EMPTY + 8 * at, NIL, NONE);
-            int rest = text.addCons(text.place(datum), datum, end);
-            return text.addCons(at, text.addName(at, QUOTE), rest);
+            int end = text.add(Text.EMPTY, at, 0, NIL, NONE);
+            int rest = text.add(Text.CONS, text.place(datum), 0, datum, end);
+            int name = text.add(Text.NAME, at, QUOTE, QUOTE, NONE);
+            return text.add(Text.CONS, at, 0, name, rest);
         }
 
         private void append(int k, int d) {
@@ -2135,7 +2122,7 @@ public final class SchemeEleven {
                 return;
             }
             boolean isFirst = lists[k] == NONE;
-            int pair = text.addCons(isFirst ? begins[k] : text.place(d), d, NONE);
+            int pair = text.add(Text.CONS, isFirst ? begins[k] : text.place(d), 0, d, NONE);
             if (isFirst) {
                 lists[k] = pair;
             } else {
@@ -2153,7 +2140,8 @@ public final class SchemeEleven {
         private static final int KEYWORD = 1000;
         private static final int MACRO = 2000;
         private static final int TOLD = 10000;
-        private static final int HOPS_MOST = 1000000;
+        /** Far above all scopes of all aliases that a name can go through. */
+        private static final int HOPS_MOST = 100000000;
 
         private final Text text;
         private final int[] names = new int[TOLD_MOST + 1];
@@ -2320,12 +2308,13 @@ public final class SchemeEleven {
 
         private final Text text;
         private int literals = NONE;
-        private final int[] names = new int[VARIABLES_MOST];
+        /** Where each variable stands, what it stands for, its outer and its inner group or NONE. */
+        private final int[] nodes = new int[VARIABLES_MOST];
         private final int[] values = new int[VARIABLES_MOST];
-        /** The outer and the inner group of a variable, or NONE. */
         private final int[] outers = new int[VARIABLES_MOST];
         private final int[] inners = new int[VARIABLES_MOST];
         private int variables;
+        /** Of each group its part, its list, what is left of that, and the numbers behind its own ones. */
         private final int[] bodies = new int[GROUPS_MOST];
         private final int[] lists = new int[GROUPS_MOST];
         private final int[] cursors = new int[GROUPS_MOST];
@@ -2334,44 +2323,50 @@ public final class SchemeEleven {
         private final int[] nextGroups = new int[GROUPS_MOST];
         private int groups;
         private int outer;
-        private int inner;
         private int variableAt;
         private int groupAt;
+        /** Groups that are gone through side by side, in two halves: around none, and within those. */
+        private final int[] abreast = new int[2 * GROUPS_MOST];
+        private final int[] abreastCount = new int[2];
 
         Pattern(Text text) {
             this.text = text;
         }
 
-        /** Whether the pattern is one, its variables being known then; looks for twins only if told to. */
-        boolean learn(int pattern, int literalNames, boolean twins) {
+        void begin(int literalNames) {
             literals = literalNames;
             variables = 0;
             groups = 0;
             outer = NONE;
-            inner = NONE;
-            return learnPart(pattern, 0, 0) && !(twins && hasTwins());
         }
 
-        private boolean learnPart(int pattern, int level, int depth) {
+        /** Whether the part that begins here is followed by the dots. */
+        static boolean repeats(Text text, int d) {
+            return text.symbolAtLast(text.first(text.rest(d))) == DOTS;
+        }
+
+        /** Whether it is a pattern, its variables and groups being known then. */
+        private boolean learn(int pattern, int group, int level, int depth) {
             int p = pattern;
             for (int i = 0; i < Text.SIZE && depth < DEEPEST && text.isCons(p); i++) {
                 int x = text.first(p);
                 if (text.symbolAtLast(x) == DOTS) {
                     return false;
                 }
-                if (text.repeats(p)) {
+                if (text.symbolAtLast(text.first(text.rest(p))) == DOTS) {
                     boolean last = text.kind(text.rest(text.rest(p))) == Text.EMPTY;
                     return last && level < LEVEL_MOST && learnGroup(x, level, depth);
                 }
-                if (!learnPart(x, level, depth + 1)) {
+                if (!learn(x, group, level, depth + 1)) {
                     return false;
                 }
                 p = text.rest(p);
             }
-            if (isVariable(p)) {
-                learnVariable(p);
+            int symbol = text.symbolAtLast(p);
+            if (symbol != NONE && symbol != ANYTHING && symbol != DOTS && !isLiteral(p)) {
+                learnVariable(p, group, level);
             }
-            return text.symbolAtLast(p) != DOTS;
+            return symbol != DOTS;
         }
 
         private boolean learnGroup(int body, int level, int depth) {
@@ -2380,31 +2375,27 @@ public final class SchemeEleven {
             }
             int g = groups;
             groups++;
+            outer = level == 0 ? g : outer;
             bodies[g] = body;
             firstVariables[g] = variables;
-            int before = level == 0 ? outer : inner;
-            outer = level == 0 ? g : outer;
-            inner = level == 0 ? inner : g;
-            boolean good = learnPart(body, level + 1, depth + 1);
-            outer = level == 0 ? before : outer;
-            inner = level == 0 ? inner : before;
+            boolean good = learn(body, g, level + 1, depth + 1);
             nextVariables[g] = variables;
             nextGroups[g] = groups;
             return good;
         }
 
-        private void learnVariable(int p) {
+        private void learnVariable(int p, int group, int level) {
             if (variables < VARIABLES_MOST) {
-                names[variables] = text.nameOf(p);
-                outers[variables] = outer;
-                inners[variables] = inner;
+                nodes[variables] = p;
+                outers[variables] = level > 0 ? outer : NONE;
+                inners[variables] = level > 1 ? group : NONE;
                 variables++;
             }
         }
 
-        private boolean hasTwins() {
+        boolean hasTwins() {
             for (int i = 0; i < variables; i++) {
-                if (find(names[i]) != i) {
+                if (find(text.nameOf(nodes[i])) != i) {
                     return true;
                 }
             }
@@ -2423,15 +2414,10 @@ public final class SchemeEleven {
             return false;
         }
 
-        private boolean isVariable(int p) {
-            int symbol = text.symbolAtLast(p);
-            return symbol != NONE && symbol != ANYTHING && symbol != DOTS && !isLiteral(p);
-        }
-
         /** The number of the variable of this name, or NONE. */
         int find(int name) {
-            for (int v = 0; v < variables; v++) {
-                if (names[v] == name) {
+            for (int v = 0; v < variables && name != NONE; v++) {
+                if (text.nameOf(nodes[v]) == name) {
                     return v;
                 }
             }
@@ -2449,45 +2435,12 @@ public final class SchemeEleven {
             return v >= 0 && v < variables ? values[v] : NONE;
         }
 
-        /** The group around a variable that is repeated when so many are around already. */
-        int groupOf(int v, int around) {
-            if (v < 0 || v >= variables) {
-                return NONE;
-            }
-            return around == 0 ? outers[v] : inners[v];
-        }
-
-        int listOf(int g) {
-            return g >= 0 && g < groups ? lists[g] : NONE;
-        }
-
-        void bindAll(int pattern, int datum) {
-            variableAt = 0;
-            groupAt = 0;
-            bind(pattern, datum, 0);
-        }
-
-        void rewind(int g) {
-            if (g >= 0 && g < groups) {
-                cursors[g] = lists[g];
-            }
-        }
-
-        void bindNext(int g) {
-            if (g >= 0 && g < groups) {
-                variableAt = firstVariables[g];
-                groupAt = g + 1;
-                bind(bodies[g], text.first(cursors[g]), 0);
-                cursors[g] = text.rest(cursors[g]);
-            }
-        }
-
-        /** The same way through the pattern as learnPart(), so that the numbers are the same. */
+        /** The same way through the pattern as learn(), so that the numbers are the same. */
         private void bind(int pattern, int datum, int depth) {
             int p = pattern;
             int d = datum;
             for (int i = 0; i < Text.SIZE && depth < DEEPEST && text.isCons(p); i++) {
-                if (text.repeats(p)) {
+                if (text.symbolAtLast(text.first(text.rest(p))) == DOTS) {
                     bindGroup(d);
                     return;
                 }
@@ -2495,7 +2448,7 @@ public final class SchemeEleven {
                 p = text.rest(p);
                 d = text.rest(d);
             }
-            if (isVariable(p) && variableAt < variables) {
+            if (variableAt < variables && nodes[variableAt] == p) {
                 values[variableAt] = d;
                 variableAt++;
             }
@@ -2507,6 +2460,70 @@ public final class SchemeEleven {
                 lists[g] = list;
                 variableAt = nextVariables[g];
                 groupAt = nextGroups[g];
+            }
+        }
+
+        void bindAll(int pattern, int datum) {
+            variableAt = 0;
+            groupAt = 0;
+            bind(pattern, datum, 0);
+        }
+
+        /** The groups of a template's part stand for their next parts. */
+        void bindNext(int half) {
+            int count = half >= 0 && half < 2 ? abreastCount[half] : 0;
+            for (int i = 0; i < count; i++) {
+                int g = abreast[half * GROUPS_MOST + i];
+                variableAt = firstVariables[g];
+                groupAt = g + 1;
+                bind(bodies[g], text.first(cursors[g]), 0);
+                cursors[g] = text.rest(cursors[g]);
+            }
+        }
+
+        /** How many parts all groups in a template's part have; NONE if unlike many. */
+        int align(int part, int half) {
+            if (half < 0 || half > 1) {
+                return NONE;
+            }
+            abreastCount[half] = 0;
+            gather(part, half, 0);
+            int times = NONE;
+            for (int i = 0; i < abreastCount[half]; i++) {
+                int g = abreast[half * GROUPS_MOST + i];
+                int n = text.count(lists[g]);
+                if (times != NONE && n != times) {
+                    return NONE;
+                }
+                times = n;
+                cursors[g] = lists[g];
+            }
+            return times;
+        }
+
+        private void gather(int part, int half, int depth) {
+            int rest = part;
+            for (int i = 0; i < Text.SIZE && depth < DEEPEST && text.isCons(rest); i++) {
+                gather(text.first(rest), half, depth + 1);
+                rest = text.rest(rest);
+            }
+            int name = text.nameOf(rest);
+            for (int v = 0; v < variables && name != NONE; v++) {
+                if (text.nameOf(nodes[v]) == name) {
+                    gatherGroup(half == 0 ? outers[v] : inners[v], half);
+                }
+            }
+        }
+
+        private void gatherGroup(int g, int half) {
+            int count = abreastCount[half];
+            boolean isNew = g >= 0 && g < groups && count < GROUPS_MOST;
+            for (int i = 0; i < count && isNew; i++) {
+                isNew = abreast[half * GROUPS_MOST + i] != g;
+            }
+            if (isNew) {
+                abreast[half * GROUPS_MOST + count] = g;
+                abreastCount[half] = count + 1;
             }
         }
     }
@@ -2530,9 +2547,6 @@ public final class SchemeEleven {
         /** The aliases of the use, one for each name. */
         private final int[] aliases = new int[NAMES_MOST];
         private int aliased;
-        /** The groups that are gone through, in two halves: those at no depth, and those within these. */
-        private final int[] together = new int[2 * Pattern.GROUPS_MOST];
-        private final int[] togetherCount = new int[2];
 
         Spreader(Text text, Scopes scopes) {
             this.text = text;
@@ -2580,17 +2594,18 @@ public final class SchemeEleven {
                 return false;
             }
             seen = 0;
-            return pattern.learn(text.rest(head), literals, true)
+            pattern.begin(literals);
+            return pattern.learn(text.rest(head), NONE, 0, 0) && !pattern.hasTwins()
                 && isTemplate(text.first(text.rest(rule)), 0, 0);
         }
 
         private boolean isTemplate(int template, int around, int depth) {
             int t = template;
             for (int i = 0; i < Text.SIZE && depth < DEEPEST && text.isCons(t); i++) {
-                int x = text.first(t);
-                boolean repeats = text.repeats(t);
+                boolean repeats = Pattern.repeats(text, t);
                 int before = seen;
-                if (!isTemplate(x, repeats ? around + 1 : around, depth + 1) || repeats && seen == before) {
+                boolean good = isTemplate(text.first(t), repeats ? around + 1 : around, depth + 1);
+                if (!good || repeats && seen == before) {
                     return false;
                 }
                 t = repeats ? text.rest(text.rest(t)) : text.rest(t);
@@ -2603,7 +2618,7 @@ public final class SchemeEleven {
             return pattern.depthOf(v) == around;
         }
 
-        /** What the use gives; a fault is in the text then if it can't. */
+        /** What the use gives; if it can't, a fault is in the text. */
         int use(int datum, int scope, int root, int told) {
             place = text.place(datum);
             if (uses >= USES_MOST) {
@@ -2614,31 +2629,23 @@ public final class SchemeEleven {
             useScope = scope;
             toldScope = told;
             aliased = 0;
-            pattern.literals = text.first(text.rest(root));
-            int rule = findRule(root, text.rest(datum));
-            if (rule == NONE) {
-                text.fail(RULES, place);
-                return NONE;
-            }
-            int head = text.rest(text.first(rule));
-            pattern.learn(head, pattern.literals, false);
-            pattern.bindAll(head, text.rest(datum));
-            int result = make(text.first(text.rest(rule)), 0, 0);
-            if (text.fault == 0 && text.measure(result, MADE_MOST, LISTS_MOST) > MADE_MOST) {
-                text.fail(FULL, place);
-            }
-            return result;
-        }
-
-        private int findRule(int root, int datum) {
+            pattern.begin(text.first(text.rest(root)));
             int rest = text.rest(text.rest(root));
             for (int i = 0; i < Text.SIZE && text.isCons(rest); i++) {
                 int rule = text.first(rest);
-                if (fits(text.rest(text.first(rule)), datum, 0)) {
-                    return rule;
+                int head = text.rest(text.first(rule));
+                if (fits(head, text.rest(datum), 0)) {
+                    pattern.learn(head, NONE, 0, 0);
+                    pattern.bindAll(head, text.rest(datum));
+                    int result = make(text.first(text.rest(rule)), 0, 0);
+                    if (text.fault == 0 && text.measure(result, MADE_MOST, LISTS_MOST) > MADE_MOST) {
+                        text.fail(FULL, place);
+                    }
+                    return result;
                 }
                 rest = text.rest(rest);
             }
+            text.fail(RULES, place);
             return NONE;
         }
 
@@ -2646,7 +2653,7 @@ public final class SchemeEleven {
             int p = head;
             int d = datum;
             for (int i = 0; i < Text.SIZE && depth < DEEPEST && text.isCons(p); i++) {
-                if (text.repeats(p)) {
+                if (Pattern.repeats(text, p)) {
                     return fitsEach(text.first(p), d, depth + 1);
                 }
                 if (!text.isCons(d) || !fits(text.first(p), text.first(d), depth + 1)) {
@@ -2688,21 +2695,24 @@ public final class SchemeEleven {
             return true;
         }
 
-        /** A pair is counted ahead of its parts, so the list is made from its head on. */
+        /** A pair is counted ahead of its parts, so a list is made from its head on. */
         private int make(int template, int around, int depth) {
             int t = template;
             int head = NONE;
             int last = NONE;
             for (int i = 0; i < Text.SIZE && depth < DEEPEST && text.fault == 0 && text.isCons(t); i++) {
-                boolean repeats = text.repeats(t);
-                int times = repeats ? gather(text.first(t), around) : 1;
+                boolean repeats = text.symbolAtLast(text.first(text.rest(t))) == DOTS;
+                int times = repeats ? pattern.align(text.first(t), around) : 1;
+                if (times == NONE) {
+                    text.fail(RULES, place);
+                }
                 for (int j = 0; j < times && countMade(); j++) {
-                    int pair = text.addCons(place, NONE, NONE);
+                    int pair = text.add(Text.CONS, place, 0, NONE, NONE);
                     head = head == NONE ? pair : head;
                     text.setRest(last, pair);
                     last = pair;
                     if (repeats) {
-                        bindTogether(around);
+                        pattern.bindNext(around);
                     }
                     text.setFirst(pair, make(text.first(t), repeats ? around + 1 : around, depth + 1));
                 }
@@ -2724,7 +2734,7 @@ public final class SchemeEleven {
             if (text.isName(t)) {
                 return aliasOf(t);
             }
-            return text.add(text.kind(t) + 8 * place, text.wordOf(t), NONE);
+            return text.add(text.kind(t), place, 0, text.wordOf(t), NONE);
         }
 
         private int aliasOf(int t) {
@@ -2734,60 +2744,12 @@ public final class SchemeEleven {
                     return aliases[i];
                 }
             }
-            int alias = text.addAlias(place, name, toldScope, text.symbolAtLast(t));
+            int alias = text.add(Text.ALIAS, place, text.symbolAtLast(t), name, toldScope);
             if (aliased < NAMES_MOST) {
                 aliases[aliased] = alias;
                 aliased++;
             }
             return alias;
-        }
-
-        /** How often a part with dots is made; a fault if its variables stand for unlike many. */
-        private int gather(int x, int around) {
-            int half = around > 0 ? 1 : 0;
-            togetherCount[half] = 0;
-            gatherGroups(x, half, 0);
-            int times = NONE;
-            for (int i = 0; i < togetherCount[half]; i++) {
-                int g = together[half * Pattern.GROUPS_MOST + i];
-                int n = text.count(pattern.listOf(g));
-                if (times != NONE && n != times) {
-                    text.fail(RULES, place);
-                    return 0;
-                }
-                times = n;
-                pattern.rewind(g);
-            }
-            return times;
-        }
-
-        private void gatherGroups(int x, int half, int depth) {
-            int rest = x;
-            for (int i = 0; i < Text.SIZE && depth < DEEPEST && text.isCons(rest); i++) {
-                gatherGroups(text.first(rest), half, depth + 1);
-                rest = text.rest(rest);
-            }
-            int g = pattern.groupOf(pattern.find(text.nameOf(rest)), half);
-            if (g != NONE && !isGathered(g, half) && togetherCount[half] < Pattern.GROUPS_MOST) {
-                together[half * Pattern.GROUPS_MOST + togetherCount[half]] = g;
-                togetherCount[half]++;
-            }
-        }
-
-        private boolean isGathered(int g, int half) {
-            for (int i = 0; i < togetherCount[half]; i++) {
-                if (together[half * Pattern.GROUPS_MOST + i] == g) {
-                    return true;
-                }
-            }
-            return false;
-        }
-
-        private void bindTogether(int around) {
-            int half = around > 0 ? 1 : 0;
-            for (int i = 0; i < togetherCount[half]; i++) {
-                pattern.bindNext(together[half * Pattern.GROUPS_MOST + i]);
-            }
         }
     }
 
@@ -2796,24 +2758,26 @@ public final class SchemeEleven {
      * that no depth of a text is a depth of calls; its lambdas wait in a queue for their turn.
      */
     private static final class Coder {
-        private static final int FORM = 0;
-        private static final int EXPRESSION = 1;
-        private static final int SEQUENCE = 2;
-        private static final int OPERANDS = 3;
-        private static final int PUSHED = 4;
-        private static final int TESTED = 5;
-        private static final int CHOSEN = 6;
-        private static final int JOINED = 7;
-        private static final int STORED = 8;
-        private static final int DEFINED = 9;
-        private static final int USED = 10;
-        private static final int CLOSED = 11;
-        private static final int TOLD_RULES = 12;
-        private static final int BINDINGS = 13;
+        /** The tasks: those of keywords have the keywords' numbers. */
+        private static final int FORM = 8;
+        private static final int EXPRESSION = 9;
+        private static final int SEQUENCE = 10;
+        private static final int CALL = 11;
+        private static final int OPERANDS = 12;
+        private static final int PUSHED = 13;
+        private static final int TESTED = 14;
+        private static final int CHOSEN = 15;
+        private static final int JOINED = 16;
+        private static final int STORED = 17;
+        private static final int DEFINED = 18;
+        private static final int TOLD_RULES = 19;
+        private static final int BINDINGS = 20;
+        private static final int USED = 21;
 
         private static final int STRIDE = 6;
         private static final int TASKS_MOST = 512;
-        private static final int STEPS_MOST = 100000000;
+        /** Far above the tasks of a form, which has 12,288 words at most, each within 60 others. */
+        private static final int STEPS_MOST = 10000000;
         private static final int WITHIN_MOST = 60;
         private static final int OPERANDS_MOST = 40;
         private static final int NAMES_MOST = 20;
@@ -2854,18 +2818,56 @@ public final class SchemeEleven {
             spreader.begin();
         }
 
-        void codeForm(int form) {
+        void beginForm(int form) {
             top = 0;
             firstLambda = 0;
             lambdaCount = 0;
             scope = 0;
             push(FORM, form, NONE, IN_TAIL, 0);
-            for (int i = 0; i < STEPS_MOST && text.fault == 0 && (top > 0 || firstLambda < lambdaCount); i++) {
-                if (top > 0) {
-                    doTask();
-                } else {
-                    beginLambda();
-                }
+        }
+
+        boolean isBusy() {
+            return text.fault == 0 && (top > 0 || firstLambda < lambdaCount);
+        }
+
+        void work() {
+            if (top <= 0) {
+                beginLambda();
+                return;
+            }
+            top--;
+            int at = top * STRIDE;
+            datum = tasks[at + 1];
+            part = tasks[at + 2];
+            scope = tasks[at + 3];
+            flags = tasks[at + 4];
+            patch = tasks[at + 5];
+            switch (tasks[at]) {
+                case QUOTE: codeQuote(); break;
+                case IF: codeIf(); break;
+                case SET: codeSet(); break;
+                case LAMBDA: codeLambda(); break;
+                case BEGIN: codeBegin(); break;
+                case DEFINE: codeDefine(); break;
+                case DEFINE_SYNTAX: codeDefineSyntax(); break;
+                case LET_SYNTAX: codeLetSyntax(); break;
+                case FORM: codeForm(); break;
+                case EXPRESSION: codeExpression(); break;
+                case SEQUENCE: codeSequence(); break;
+                case CALL: codeCall(); break;
+                case OPERANDS: codeOperands(); break;
+                case PUSHED: emit(0104000); break;
+                case TESTED: codeTested(); break;
+                case CHOSEN: codeChosen(); break;
+                case JOINED: setWord(patch, image.codeEnd); break;
+                case STORED: codeStored(); break;
+                case DEFINED: codeDefined(); break;
+                case TOLD_RULES: tellMacro(spreader.isRules(part)); break;
+                case BINDINGS: codeBindings(patch == NONE || spreader.isRules(patch)); break;
+                default:
+                    int gives = spreader.use(datum, scope, scopes.rulesOf(patch), scopes.scopeOf(patch));
+                    push(part, gives, NONE, flags, 0);
+                    break;
             }
         }
 
@@ -2885,35 +2887,6 @@ public final class SchemeEleven {
             top++;
         }
 
-        private void doTask() {
-            top--;
-            int at = top * STRIDE;
-            datum = tasks[at + 1];
-            part = tasks[at + 2];
-            scope = tasks[at + 3];
-            flags = tasks[at + 4];
-            patch = tasks[at + 5];
-            switch (tasks[at]) {
-                case FORM: codeTop(); break;
-                case EXPRESSION: codeExpression(); break;
-                case SEQUENCE: codeSequence(); break;
-                case OPERANDS: codeOperands(); break;
-                case PUSHED: emit(0104000); break;
-                case TESTED: codeTested(); break;
-                case CHOSEN: codeChosen(); break;
-                case JOINED: setWord(patch, image.codeEnd); break;
-                case STORED: codeStored(); break;
-                case DEFINED: codeDefined(); break;
-                case CLOSED: codeLambda(); break;
-                case TOLD_RULES: codeToldRules(); break;
-                case BINDINGS: codeBindings(); break;
-                default:
-                    int gives = spreader.use(datum, scope, scopes.rulesOf(patch), scopes.scopeOf(patch));
-                    push(part, gives, NONE, flags, 0);
-                    break;
-            }
-        }
-
         private void fail(int kind) {
             text.fail(kind, text.place(datum));
         }
@@ -2929,13 +2902,19 @@ public final class SchemeEleven {
 
         private void emit(int word) {
             if (text.fault == 0 && !image.addWord(word)) {
-                fail(FULL);
+                text.fail(FULL, text.place(datum));
             }
         }
 
         private void emitTwo(int word, int behind) {
             emit(word);
             emit(behind);
+        }
+
+        private void emitReturn() {
+            if (inTail()) {
+                emit(RETURN);
+            }
         }
 
         private void setWord(int place, int word) {
@@ -2945,11 +2924,8 @@ public final class SchemeEleven {
         }
 
         private void codeConstant(int value) {
-            emitTwo(TO_VALUE, value);
-            codeReturn();
-        }
-
-        private void codeReturn() {
+            emit(TO_VALUE);
+            emit(value);
             if (inTail()) {
                 emit(RETURN);
             }
@@ -2966,21 +2942,19 @@ public final class SchemeEleven {
         /** What the first name of a list means; NONE of all else. */
         private int meaningOfFirst() {
             int first = text.first(datum);
-            if (!text.isCons(datum) || text.count(datum) == NONE || !text.isName(first)) {
+            if (text.count(datum) == NONE || !text.isName(first)) {
                 return NONE;
             }
             return scopes.meaning(first, scope);
         }
 
-        private void codeTop() {
+        private void codeForm() {
             int meaning = meaningOfFirst();
             int keyword = scopes.keywordOf(meaning);
             if (scopes.isMacro(meaning)) {
                 push(USED, datum, FORM, flags, meaning);
-            } else if (keyword == DEFINE) {
-                codeDefine();
-            } else if (keyword == DEFINE_SYNTAX) {
-                codeDefineSyntax();
+            } else if (keyword == DEFINE || keyword == DEFINE_SYNTAX) {
+                push(keyword, datum, NONE, flags, 0);
             } else {
                 push(EXPRESSION, datum, NONE, flags, 0);
             }
@@ -2998,9 +2972,10 @@ public final class SchemeEleven {
             }
             push(DEFINED, datum, text.symbolAtLast(symbolName), flags, 0);
             if (shortened) {
-                int parts = text.addCons(text.place(datum), text.rest(name), text.rest(text.rest(datum)));
-                int lambda = text.addCons(text.place(datum), text.first(datum), parts);
-                push(CLOSED, lambda, NONE, flags & ~IN_TAIL, 0);
+                int place = text.place(datum);
+                int parts = text.add(Text.CONS, place, 0, text.rest(name), text.rest(text.rest(datum)));
+                int lambda = text.add(Text.CONS, place, 0, text.first(datum), parts);
+                push(LAMBDA, lambda, NONE, flags & ~IN_TAIL, 0);
             } else {
                 push(EXPRESSION, third(), NONE, flags & ~IN_TAIL, 0);
             }
@@ -3018,15 +2993,14 @@ public final class SchemeEleven {
                 fail(SYNTAX);
                 return;
             }
-            push(TOLD_RULES, datum, NONE, flags, 0);
+            push(TOLD_RULES, datum, third(), flags, 0);
         }
 
-        private void codeToldRules() {
-            int rules = third();
+        private void tellMacro(boolean isRules) {
             int symbol = text.symbolAtLast(second());
-            if (!spreader.isRules(rules)) {
-                text.fail(RULES, text.place(rules));
-            } else if (!scopes.tellMacro(symbol, rules)) {
+            if (!isRules) {
+                text.fail(RULES, text.place(part));
+            } else if (!scopes.tellMacro(symbol, part)) {
                 fail(FULL);
             } else {
                 codeConstant(image.placeOf(symbol));
@@ -3051,40 +3025,36 @@ public final class SchemeEleven {
             int meaning = scopes.meaning(datum, scope);
             if (scopes.isVariable(meaning)) {
                 int info = scopes.infoOf(meaning);
-                int x = 4 + 2 * (info & 31);
                 int out = flags / LEVEL - (info >> 5);
                 for (int i = 0; i < out && i < WITHIN_MOST; i++) {
-                    emitTwo(i == 0 ? 016100 : 016000, 2);
+                    emit(i == 0 ? 016100 : 016000);
+                    emit(2);
                 }
-                emitTwo(out == 0 ? 016100 : 016000, x);
+                emit(out == 0 ? 016100 : 016000);
+                emit(4 + 2 * (info & 31));
             } else if (scopes.isGlobal(meaning)) {
-                emitTwo(013700, image.placeOf(meaning) + 2);
-                emitTwo(001001, 0104005);
+                emit(013700);
+                emit(image.placeOf(meaning) + 2);
+                emit(001001);
+                emit(0104005);
             } else {
                 fail(SYNTAX);
             }
-            codeReturn();
+            if (inTail()) {
+                emit(RETURN);
+            }
         }
 
+        /** A use, a keyword's form or a call is a task of its own, in the place of this one. */
         private void codeList() {
-            if (text.count(datum) == NONE) {
-                fail(SYNTAX);
-                return;
-            }
             int meaning = meaningOfFirst();
-            if (scopes.isMacro(meaning)) {
+            int keyword = scopes.keywordOf(meaning);
+            if (text.count(datum) == NONE || keyword == DEFINE || keyword == DEFINE_SYNTAX) {
+                fail(SYNTAX);
+            } else if (scopes.isMacro(meaning)) {
                 push(USED, datum, EXPRESSION, flags, meaning);
-                return;
-            }
-            switch (scopes.keywordOf(meaning)) {
-                case NONE: codeCall(); break;
-                case QUOTE: codeQuote(); break;
-                case IF: codeIf(); break;
-                case SET: codeSet(); break;
-                case LAMBDA: codeLambda(); break;
-                case BEGIN: codeBegin(); break;
-                case LET_SYNTAX: codeLetSyntax(); break;
-                default: fail(SYNTAX); break;
+            } else {
+                push(keyword == NONE ? CALL : keyword, datum, NONE, flags, 0);
             }
         }
 
@@ -3168,12 +3138,9 @@ public final class SchemeEleven {
         private void codeChosen() {
             if (!inTail()) {
                 emitTwo(000137, 0);
+                push(JOINED, datum, NONE, flags, image.codeEnd - 2);
             }
-            int join = image.codeEnd - 2;
             setWord(patch, image.codeEnd);
-            if (!inTail()) {
-                push(JOINED, datum, NONE, flags, join);
-            }
             int otherwise = text.rest(text.rest(text.rest(datum)));
             if (text.isCons(otherwise)) {
                 push(EXPRESSION, text.first(otherwise), NONE, inner(true), 0);
@@ -3268,10 +3235,13 @@ public final class SchemeEleven {
             lambdas[at + 2] = flags;
             lambdas[at + 3] = image.codeEnd - 2;
             lambdaCount++;
-            codeReturn();
+            emitReturn();
         }
 
         private void beginLambda() {
+            if (firstLambda >= lambdaCount) {
+                return;
+            }
             int at = firstLambda * 4;
             firstLambda++;
             datum = lambdas[at];
@@ -3302,7 +3272,7 @@ public final class SchemeEleven {
             } else if (!scopes.hasRoom(count)) {
                 fail(FULL);
             } else {
-                push(BINDINGS, datum, bindings, flags, 0);
+                push(BINDINGS, datum, bindings, flags, rulesOf(bindings));
             }
         }
 
@@ -3318,35 +3288,32 @@ public final class SchemeEleven {
             return true;
         }
 
+        /** The rules of the first binding, NONE without one. */
+        private int rulesOf(int bindings) {
+            return text.first(text.rest(text.first(bindings)));
+        }
+
         /** Rules are looked at one after another; behind the last one the macros are told. */
-        private void codeBindings() {
-            if (!text.isCons(part)) {
-                tellBindings();
-                return;
-            }
-            int rules = text.first(text.rest(text.first(part)));
-            if (spreader.isRules(rules)) {
-                push(BINDINGS, datum, text.rest(part), flags, 0);
+        private void codeBindings(boolean isRules) {
+            if (!isRules) {
+                text.fail(RULES, text.place(patch));
+            } else if (text.isCons(part)) {
+                push(BINDINGS, datum, text.rest(part), flags, rulesOf(text.rest(part)));
             } else {
-                text.fail(RULES, text.place(rules));
+                tellBindings();
             }
         }
 
-        /** The first one of a name counts, so a later one isn't told in its scope. */
+        /** The first one of a name counts, so a later one is told for no name. */
         private void tellBindings() {
             int outside = scope;
-            int within = scope;
             int rest = second();
             for (int i = 0; i < Text.SIZE && text.isCons(rest); i++) {
-                int binding = text.first(rest);
-                int name = text.first(binding);
-                int rules = text.first(text.rest(binding));
-                boolean again = isTold(rest, name);
-                int info = -1 - rules;
-                within = scopes.tell(within, again ? NONE : text.nameOf(name), info, outside);
+                int name = text.first(text.first(rest));
+                int told = isTold(rest, name) ? NONE : text.nameOf(name);
+                scope = scopes.tell(scope, told, -1 - rulesOf(rest), outside);
                 rest = text.rest(rest);
             }
-            scope = within;
             push(SEQUENCE, datum, text.rest(text.rest(datum)), inner(true), 0);
         }
 

@@ -6,6 +6,10 @@ final class Check {
     private Check() {
     }
 
+    private static String few(String text) {
+        return text.length() > 200 ? text.substring(0, 200) + " .." : text;
+    }
+
     static void due(String what, long got, long want) {
         asked++;
         if (got != want) {
@@ -55,7 +59,9 @@ final class Check {
     /** A new object that has read the text. */
     static SchemeEleven loaded(String text) {
         SchemeEleven x = new SchemeEleven();
-        due("load of " + text, load(x, text) == SchemeEleven.NONE ? 1 : 0, 0);
+        int waits = load(x, text);
+        due("fault of " + few(text) + " at " + x.fault(1), x.fault(0), 0);
+        due("forms of " + few(text), waits, x.look(0));
         return x;
     }
 
@@ -109,7 +115,7 @@ final class Check {
     }
 
     static void faults(SchemeEleven x, String text, int kind, int place) {
-        String few = text.length() > 200 ? text.substring(0, 200) + " .." : text;
+        String few = few(text);
         int waits = x.look(0);
         int statics = x.look(1);
         int code = x.look(2);
