@@ -1798,6 +1798,17 @@ public final class SchemeEleven {
             return isName ? tags[d] >> 14 : NONE;
         }
 
+        /** Whether the part that begins here is followed by the dots. */
+        boolean repeats(int d) {
+            int next = d >= 0 && d < SIZE && (tags[d] & 7) == CONS ? seconds[d] : NONE;
+            int behind = next >= 0 && next < SIZE && (tags[next] & 7) == CONS ? firsts[next] : NONE;
+            if (behind < 0 || behind >= SIZE) {
+                return false;
+            }
+            boolean isName = (tags[behind] & 7) == NAME || (tags[behind] & 7) == ALIAS;
+            return isName && tags[behind] >> 14 == DOTS;
+        }
+
         /** The name that an alias stands for where its macro was told. */
         int aliasedName(int d) {
             return d >= 0 && d < SIZE && (tags[d] & 7) == ALIAS ? firsts[d] : NONE;
@@ -2340,11 +2351,6 @@ public final class SchemeEleven {
             outer = NONE;
         }
 
-        /** Whether the part that begins here is followed by the dots. */
-        static boolean repeats(Text text, int d) {
-            return text.symbolAtLast(text.first(text.rest(d))) == DOTS;
-        }
-
         /** Whether it is a pattern, its variables and groups being known then. */
         private boolean learn(int pattern, int group, int level, int depth) {
             int p = pattern;
@@ -2353,7 +2359,7 @@ public final class SchemeEleven {
                 if (text.symbolAtLast(x) == DOTS) {
                     return false;
                 }
-                if (text.symbolAtLast(text.first(text.rest(p))) == DOTS) {
+                if (text.repeats(p)) {
                     boolean last = text.kind(text.rest(text.rest(p))) == Text.EMPTY;
                     return last && level < LEVEL_MOST && learnGroup(x, level, depth);
                 }
@@ -2440,7 +2446,7 @@ public final class SchemeEleven {
             int p = pattern;
             int d = datum;
             for (int i = 0; i < Text.SIZE && depth < DEEPEST && text.isCons(p); i++) {
-                if (text.symbolAtLast(text.first(text.rest(p))) == DOTS) {
+                if (text.repeats(p)) {
                     bindGroup(d);
                     return;
                 }
@@ -2602,7 +2608,7 @@ public final class SchemeEleven {
         private boolean isTemplate(int template, int around, int depth) {
             int t = template;
             for (int i = 0; i < Text.SIZE && depth < DEEPEST && text.isCons(t); i++) {
-                boolean repeats = Pattern.repeats(text, t);
+                boolean repeats = text.repeats(t);
                 int before = seen;
                 boolean good = isTemplate(text.first(t), repeats ? around + 1 : around, depth + 1);
                 if (!good || repeats && seen == before) {
@@ -2653,7 +2659,7 @@ public final class SchemeEleven {
             int p = head;
             int d = datum;
             for (int i = 0; i < Text.SIZE && depth < DEEPEST && text.isCons(p); i++) {
-                if (Pattern.repeats(text, p)) {
+                if (text.repeats(p)) {
                     return fitsEach(text.first(p), d, depth + 1);
                 }
                 if (!text.isCons(d) || !fits(text.first(p), text.first(d), depth + 1)) {
@@ -2701,7 +2707,7 @@ public final class SchemeEleven {
             int head = NONE;
             int last = NONE;
             for (int i = 0; i < Text.SIZE && depth < DEEPEST && text.fault == 0 && text.isCons(t); i++) {
-                boolean repeats = text.symbolAtLast(text.first(text.rest(t))) == DOTS;
+                boolean repeats = text.repeats(t);
                 int times = repeats ? pattern.align(text.first(t), around) : 1;
                 if (times == NONE) {
                     text.fail(RULES, place);
@@ -2909,12 +2915,6 @@ public final class SchemeEleven {
         private void emitTwo(int word, int behind) {
             emit(word);
             emit(behind);
-        }
-
-        private void emitReturn() {
-            if (inTail()) {
-                emit(RETURN);
-            }
         }
 
         private void setWord(int place, int word) {
@@ -3235,7 +3235,9 @@ public final class SchemeEleven {
             lambdas[at + 2] = flags;
             lambdas[at + 3] = image.codeEnd - 2;
             lambdaCount++;
-            emitReturn();
+            if (inTail()) {
+                emit(RETURN);
+            }
         }
 
         private void beginLambda() {

@@ -128,6 +128,27 @@ public final class BenchTest {
         x.poke(0500, 0xABCD);
         goes("MOVB R0,(R1)", 0);
         word("MOVB to an odd place", 0500, 0x55CD);
+        words(0111100);
+        regs(0, 0501, 0);
+        x.poke(0500, 0x7F80);
+        goes("MOVB (R1),R0 at an odd place", 0);
+        reg("MOVB (R1),R0", 0, 0x7F);
+        words(0111100);
+        regs(0, 0502, 0);
+        x.poke(0502, 0x1281);
+        goes("MOVB (R1),R0 at an even place", 0);
+        reg("MOVB (R1),R0", 0, 0xFF81);
+        words(0105111);
+        regs(0, 0501, 0);
+        x.poke(0500, 0x7F80);
+        goes("COMB (R1) at an odd place", 0);
+        word("COMB (R1)", 0500, 0x8080);
+        reg("COMB (R1)", 8, N + C);
+        words(010001);
+        regs(1, 5, 0);
+        x.set(8, N + Z + V);
+        goes("MOV of 1", 0);
+        reg("MOV of 1", 8, 0);
         words(0110007);
         regs(0376, 0, 0);
         goes("MOVB R0,PC", 0);
@@ -185,7 +206,8 @@ public final class BenchTest {
     private static void sums() {
         int[][] adds = {
             {1, 2, 3, 0}, {077777, 1, 0100000, N + V}, {0177777, 1, 0, Z + C},
-            {0100000, 0100000, 0, Z + V + C}, {0177777, 0177777, 0177776, N + C},
+            {0100000, 0100000, 0, Z + V + C}, {0177777, 0177777, 0177776, N + C}, {0177776, 1, 0177777, N},
+            {0, 5, 5, 0}, {0, 0, 0, Z},
         };
         for (int[] row : adds) {
             words(060001);
@@ -196,7 +218,7 @@ public final class BenchTest {
         }
         int[][] takes = {
             {1, 3, 2, 0}, {3, 1, 0177776, N + C}, {5, 5, 0, Z},
-            {1, 0100000, 077777, V}, {0177777, 077777, 0100000, N + V + C},
+            {1, 0100000, 077777, V}, {0177777, 077777, 0100000, N + V + C}, {0, 7, 7, 0}, {1, 0, 0177777, N + C},
         };
         for (int[] row : takes) {
             words(0160001);
@@ -296,6 +318,11 @@ public final class BenchTest {
         reg("MUL of an odd register", 1, 0);
         reg("MUL of an odd register", 0, 9);
         reg("MUL beyond a word", 8, C);
+        words(070201);
+        regs(0, 0400, 01000);
+        goes("MUL R1,R2", 0);
+        reg("MUL R1,R2: higher", 2, 2);
+        reg("MUL R1,R2: lower", 3, 0);
         words(070102);
         regs(0, 0, 5);
         goes("MUL by 0", 0);
@@ -456,6 +483,13 @@ public final class BenchTest {
         reg("JSR", 1, HERE + 4);
         reg("JSR", 6, 0676);
         word("JSR", 0676, 0123);
+        words(04111);
+        x.set(6, 0700);
+        goes("JSR R1,(R1) to 0", 0);
+        reg("JSR to 0", 7, 0);
+        words(0111);
+        goes("JMP (R1) to 0", 0);
+        reg("JMP to 0", 7, 0);
         words(04121);
         x.set(1, 0500);
         x.set(6, 0700);
@@ -517,9 +551,19 @@ public final class BenchTest {
         reg("SWAB", 0, 0xFF80);
         reg("SWAB", 8, N);
         words(0300);
+        x.set(0, 0x0180);
+        x.set(8, N);
+        goes("SWAB", 0);
+        reg("SWAB", 0, 0x8001);
+        reg("SWAB to 1", 8, 0);
+        words(0300);
         x.set(0, 0x00FF);
         goes("SWAB", 0);
         reg("SWAB to 0", 8, Z);
+        words(0300);
+        x.set(0, 0);
+        goes("SWAB of 0", 0);
+        reg("SWAB of 0", 8, Z);
         words(06700);
         x.set(8, N + Z + V + C);
         goes("SXT", 0);
@@ -635,6 +679,10 @@ public final class BenchTest {
         x.poke(8190, 0xFFFF);
         goes("CLRB at the last byte", 0);
         word("CLRB at the last byte", 8190, 0xFF);
+        words(0105011);
+        x.poke(0, 0xFFFF);
+        goes("CLRB at the first byte", 0);
+        word("CLRB at the first byte", 0, 0xFF00);
         words(0105011);
         x.set(1, 8192);
         goes("CLRB behind the last byte", 3);

@@ -15,6 +15,8 @@ public final class RunTest {
         callObjects();
         packing();
         full();
+        fullByMany();
+        numbersStay();
         constantsReach();
         formsBegin();
         Check.finish();
@@ -150,7 +152,9 @@ public final class RunTest {
             "(cons 1)", "(cons 1 2 3)", "(car)", "(cdr '(1) 2)", "(set-car! '(1))", "(set-cdr! 1 2 3)", "(eq? 1)",
             "(pair?)", "(null? 1 2)", "(number?)", "(symbol?)", "(procedure?)", "(boolean?)", "(-)", "(quotient 1)",
             "(remainder 1 2 3)", "(< 1)", "(= 1 2 3)", "(apply +)", "(display)", "(newline 1)", "(not)", "(error)",
-            "(read 1)", "(car 1 2)",
+            "(read 1)", "(car 1 2)", "(set-car! '(1) 2 3)", "(set-cdr! '(1))", "(eq? 1 2 3)", "(pair? 1 2)", "(null?)",
+            "(number? 1 2)", "(symbol? 1 2)", "(procedure? 1 2)", "(boolean? 1 2)", "(quotient 1 2 3)", "(remainder 1)",
+            "(< 1 2 3)", "(= 1)", "(call/cc car 2)", "(apply + 1 '(2))", "(display 1 2)", "(not 1 2)", "(error 1 2)",
         };
         for (String text : counts) {
             Check.errs(text, 3);
@@ -187,6 +191,8 @@ public final class RunTest {
         Check.writes("(display 'abc) (display -16384) (newline) (display '())", "abc-16384\n()");
         Check.writes("(display (list #t #f car (lambda () 1) (call/cc (lambda (k) k)) (newline)))", "\n(#t #f #p #p #p #u)");
         Check.writes("(display '(1 . (2 . (3 . 4))))", "(1 2 3 . 4)");
+        Check.writes("(display '" + times("(", 10) + "a" + times(")", 10) + ")", times("(", 10) + "a" + times(")", 10));
+        Check.writes("(display '" + times("(", 11) + "a" + times(")", 11) + ")", times("(", 10) + "%" + times(")", 10));
         Check.gives("'" + times("(", 10) + "a" + times(")", 10), times("(", 10) + "a" + times(")", 10));
         Check.gives("'" + times("(", 11) + "a" + times(")", 11), times("(", 10) + "%" + times(")", 10));
         Check.gives("'" + times("(b ", 11) + "a" + times(")", 11), times("(b ", 10) + "%" + times(")", 10));
@@ -258,11 +264,14 @@ public final class RunTest {
     private static void packing() {
         SchemeEleven x = Check.loaded("(define l '()) (define (g) (set! l (cons 7 l)) (g)) (g)");
         int packs = 0;
-        for (int i = 0; i < 20000 && x.look(4) == 0; i++) {
+        int before = 0;
+        for (int i = 0; i < 20000 && packs == 0; i++) {
+            before = x.look(3);
             x.run(1);
             packs = x.look(4);
         }
         Check.due("packed once", packs, 1);
+        Check.due("not ahead of its time", 49152 - before < 10, true);
         int end = x.look(3);
         Check.due("the heap is less", end < 48000, true);
         for (int place = end; place < 49152; place += 2) {
@@ -296,6 +305,7 @@ public final class RunTest {
         SchemeEleven x = Check.loaded("(define l '()) (define (g n) (set! l (cons n l)) (g (+ n 1))) (g 1)");
         Check.due("full", Check.finish(x), 3);
         Check.due("error 6", x.look(6), 6);
+        Check.due("no room for the object", 49152 - x.look(3) < 10, true);
         int packs = x.look(4);
         Check.load(x, "(g 1) 5");
         Check.due("it stays full", Check.finish(x), 3);
@@ -308,15 +318,44 @@ public final class RunTest {
         Check.due("what it gives", Check.shown(x), "(1 2 3)");
     }
 
+    /** Many pairs are made together or not at all, so the heap is never cut in the midst of them. */
+    private static void fullByMany() {
+        String build = "(define (b n) (if (= n 0) '() (cons n (b (- n 1))))) (define a (b 100)) (define l '()) ";
+        String[] makes = {"(apply list a)", "(apply f a)", "(list 1 2 3 4 5 6 7 8 9 10 11 12 13 14 15 16 17 18 19 20)"};
+        for (String make : makes) {
+            SchemeEleven x = Check.loaded(build + "(define (f . r) r) (define (g) (set! l (cons " + make + " l)) (g)) (g)");
+            Check.due("full by " + make, Check.finish(x), 3);
+            Check.due("error 6", x.look(6), 6);
+            int place = 32768;
+            while (place < x.look(3)) {
+                int kind = x.word(place) & 15;
+                Check.due("a kind, full by " + make, kind >= 1 && kind <= 5, true);
+                place += 2 * Math.max(x.word(place) >> 4, 1);
+            }
+            Check.due("the end of the last object", place, x.look(3));
+            Check.due("a word behind it", x.word(place), 0);
+        }
+    }
+
+    /** Words of numbers from -16384 on lie among the heap's places, but are odd. */
+    private static void numbersStay() {
+        SchemeEleven x = Check.loaded("(define (b n) (if (= n -16334) '() (cons n (b (+ n 1))))) (define l (b -16384)) "
+            + "(define (lp n) (if (= n 0) 0 (lp (- n 1)))) (lp 3000) l");
+        Check.due("run", Check.finish(x), 1);
+        Check.due("packed", x.look(4) > 2, true);
+        StringBuilder want = new StringBuilder("(");
+        for (int n = -16384; n < -16334; n++) {
+            want.append(n == -16384 ? "" : " ").append(n);
+        }
+        Check.due("numbers behind packings", Check.shown(x), want.append(")").toString());
+    }
+
     /** What constants and symbols hold is reached; what nothing holds goes. */
     private static void constantsReach() {
         SchemeEleven x = Check.loaded("(define p '(1 2)) (set-car! p (list 7 8 9)) (define (lp n) (if (= n 0) p (lp (- n 1)))) (lp 2000)");
         Check.due("run", Check.finish(x), 1);
         Check.due("packed", x.look(4) > 2, true);
         Check.due("a constant's part", Check.shown(x), "((7 8 9) 2)");
-        Check.load(x, "(eq? p p)");
-        Check.finish(x);
-        Check.due("numbers that look like places are none", Check.shown(x), "#t");
     }
 
     private static void formsBegin() {

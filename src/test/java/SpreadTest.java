@@ -323,6 +323,12 @@ public final class SpreadTest {
         int last = (left - partsOf(rules(0))) / 2;
         Check.due("the last rules take all that is left", left - partsOf(rules(last)), 0);
         Check.faults(x, told("q", last + 1), 4, 0);
+        // a rule less, and its parts, so that the sum is odd
+        int odd = last - (partsOf(rules(0)) - 1) / 2;
+        Check.faults(x, told("o", 0) + told("q", odd), 4, told("o", 0).length());
+        SchemeEleven y = new SchemeEleven();
+        Check.load(y, told("p", 700));
+        Check.due("2,999 parts", Check.load(y, told("o", 0) + told("q", odd - 1)), 3);
         Check.due("just 3,000 parts", Check.load(x, told("q", last)), 2);
         Check.faults(x, "1 " + told("r", 0), 4, 2);
         Check.faults(x, "1 " + told("p", 701), 4, 2);
