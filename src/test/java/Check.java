@@ -2,6 +2,8 @@
 final class Check {
     private static int wrong = 0;
     private static int asked = 0;
+    private static int sentences = 0;
+    private static String sentence = "";
 
     private Check() {
     }
@@ -10,11 +12,17 @@ final class Check {
         return text.length() > 200 ? text.substring(0, 200) + " .." : text;
     }
 
+    /** The words of the document that the answers behind this are about; they are told with a wrong one. */
+    static void sentence(String words) {
+        sentences++;
+        sentence = "\n    \"" + words + "\"";
+    }
+
     static void due(String what, long got, long want) {
         asked++;
         if (got != want) {
             wrong++;
-            System.out.println(what + " answered " + got + ", due is " + want);
+            System.out.println(what + " answered " + got + ", due is " + want + sentence);
         }
     }
 
@@ -26,15 +34,24 @@ final class Check {
         asked++;
         if (!got.equals(want)) {
             wrong++;
-            System.out.println(what + " answered \"" + got + "\", due is \"" + want + "\"");
+            System.out.println(what + " answered \"" + got + "\", due is \"" + want + "\"" + sentence);
         }
     }
 
     static void finish() {
-        System.out.println(asked + " answers, " + wrong + " not as due");
+        String told = sentences == 0 ? "" : " to " + sentences + " sentences";
+        System.out.println(asked + " answers" + told + ", " + wrong + " not as due");
         if (wrong != 0) {
             System.exit(1);
         }
+    }
+
+    static String times(String part, int n) {
+        StringBuilder all = new StringBuilder();
+        for (int i = 0; i < n; i++) {
+            all.append(part);
+        }
+        return all.toString();
     }
 
     /** The text alone comes to the tape. */
