@@ -20,6 +20,8 @@ public final class EdgeBenchTest {
         stackGoesRound();
         byteSteps();
         wordSteps();
+        wordsAlone();
+        wholeWords();
         lowerBytes();
         indexes();
         order();
@@ -257,6 +259,54 @@ public final class EdgeBenchTest {
         word("the byte", 0600, 0x0077);
     }
 
+    /** What has no form of bytes steps by 2, for each of its operands. */
+    private static void wordsAlone() {
+        Check.sentence("2 the place r; r is 2 more then (of bytes 1");
+        int[] codes = {060021, 062100, 0160021, 0162100, 070221, 071221, 072021, 074021, 0321, 06721, 0121, 04021, 012100, 010021, 05021};
+        for (int code : codes) {
+            words(code);
+            x.set(0, 2);
+            x.set(1, 0500);
+            x.set(6, 0700);
+            x.poke(0500, 1);
+            goes(octal(code), 0);
+            reg(octal(code) + " by (R1)+", 1, 0502);
+        }
+        int[] down = {060041, 064100, 0160041, 0164100, 070241, 071241, 072041, 074041, 0341, 06741, 0141, 04041, 014100, 010041, 05041};
+        for (int code : down) {
+            words(code);
+            x.set(1, 0502);
+            x.set(6, 0700);
+            goes(octal(code), 0);
+            reg(octal(code) + " by -(R1)", 1, 0500);
+        }
+    }
+
+    /** Both bytes of a word in memory take part, all their bits. */
+    private static void wholeWords() {
+        Check.sentence("b 0, or 1 with bytes in place of words");
+        int[][] rows = {
+            // instruction, R0, the word ahead, the word then
+            {060011, 0x0101, 0x1203, 0x1304}, {0160011, 0x0101, 0x1203, 0x1102}, {074011, 0xFF0F, 0x1234, 0xED3B},
+            {0311, 0, 0x1234, 0x3412}, {06711, 0, 0x1234, 0}, {010011, 0x8181, 0x1234, 0x8181}, {05111, 0, 0x1234, 0xEDCB},
+            {0110011, 0x8181, 0x1234, 0x1281}, {0105211, 0, 0x1234, 0x1235}, {0150011, 0x0101, 0x1234, 0x1235},
+            {0105111, 0, 0x1234, 0x12CB}, {040011, 0x0210, 0x1234, 0x1024}, {050011, 0x0101, 0x1234, 0x1335},
+        };
+        for (int[] row : rows) {
+            words(row[0]);
+            x.set(0, row[1]);
+            x.set(1, 0500);
+            x.poke(0500, row[2]);
+            goes(octal(row[0]), 0);
+            word(octal(row[0]), 0500, row[3]);
+        }
+        words(0110011, 0110011);
+        regs(0x8181, 0501, 0);
+        x.poke(0500, 0x1234);
+        goes("MOVB to the higher byte", 0);
+        word("all its bits", 0500, 0x8134);
+    }
+
     private static void lowerBytes() {
         Check.sentence("0 r itself (of bytes its lower one)");
         words(0105100);
@@ -401,7 +451,7 @@ public final class EdgeBenchTest {
         int[][] rows = {
             {1, GREATEST, 0, GREATEST, 0}, {2, 040000, 0, LEAST, C}, {ONES, LEAST, 0, LEAST, C},
             {1, LEAST, ONES, LEAST, N}, {3, 65536 - 10923, ONES, GREATEST, N + C}, {LEAST, LEAST, 040000, 0, C},
-            {0, LEAST, 0, 0, Z}, {ONES, ONES, 0, 1, 0}, {GREATEST, GREATEST, 037777, 1, C},
+            {0, LEAST, 0, 0, Z}, {LEAST, 0, 0, 0, Z}, {ONES, ONES, 0, 1, 0}, {GREATEST, GREATEST, 037777, 1, C},
             {0400, 0400, 1, 0, C}, {GREATEST, LEAST, 0140000, LEAST, N + C},
         };
         for (int[] row : rows) {

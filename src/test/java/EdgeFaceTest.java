@@ -52,6 +52,12 @@ public final class EdgeFaceTest {
         Check.due("code: three words for each", x.look(2), 8192 + 6 * 6);
         Check.due("statics: the names alone", x.look(1), 1024 + 6 * x.look(5));
         Check.due("objects", x.look(3), 32768);
+        int sum = 0;
+        for (int place = 0; place < 65536; place += 2) {
+            boolean told = place >= 1024 && place < x.look(1) || place >= 8192 && place < x.look(2);
+            sum |= told ? 0 : x.word(place);
+        }
+        Check.due("all other words", sum, 0);
     }
 
     private static void benchOfItsOwn() {
@@ -480,6 +486,13 @@ public final class EdgeFaceTest {
         Check.load(x, "(let ((a (read))) (car (list a)))");
         Check.due("run", x.run(20000), 1);
         Check.due("let, car and the input are as at first", Check.shown(x), "#f");
+        for (String text : new String[] {"-1", "(if #f 1 2)"}) {
+            x = Check.loaded(text);
+            x.run(2);
+            Check.due("a flag is 1", x.register(8) != 0, true);
+            x.reset();
+            Check.due("the flags of " + text, x.register(8), 0);
+        }
         Check.sentence("nothing was WRITTEN, no ERROR, no FAULT was");
         x = Check.loaded("(display 'ab) (car 1)");
         x.run(20000);

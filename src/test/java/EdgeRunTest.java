@@ -356,6 +356,12 @@ public final class EdgeRunTest {
 
     private static void noProcedures() {
         Check.sentence("F another one: ERROR 2");
+        // words of numbers from 8 to 34 lie among those of primitives, but are odd
+        for (String n : new String[] {"7", "8", "9", "20", "33", "34", "35"}) {
+            Check.errs("(" + n + " 1)", 2);
+            Check.gives("(procedure? " + n + ")", "#f");
+            Check.gives("(list " + n + ")", "(" + n + ")");
+        }
         for (String f : new String[] {"1", "#t", "#f", "'()", "(if #f 1)", "'(1)", "'car"}) {
             Check.errs("(" + f + ")", 2);
             Check.errs("(" + f + " 1 2)", 2);

@@ -39,6 +39,11 @@ public final class EdgeTextTest {
         reads(Check.times(" ", 1999) + "1", 1);
         reads("'(" + Check.times("1 ", 998) + ")1", 2);
         Check.faults(Check.times(" ", 1999) + ")", 1, 1999);
+        SchemeEleven x = new SchemeEleven();
+        Check.due("a new name of 13 letters at the end", Check.load(x, Check.times(" ", 1986) + "'abcdefghijklm"), 1);
+        Check.due("its last letter", x.letter(x.look(5) - 1, 12), 'm');
+        reads(Check.times(" ", 1995) + "16383", 1);
+        reads(Check.times(" ", 1998) + "#t", 1);
     }
 
     private static void everyByte() {
