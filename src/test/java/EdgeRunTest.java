@@ -14,6 +14,8 @@ public final class EdgeRunTest {
         togetherTooFull();
         packed();
         oddWordsStay();
+        oddWordsReachNothing();
+        otherRegistersStay();
         packedToTheLast();
         pushFull();
         frameFull();
@@ -25,6 +27,7 @@ public final class EdgeRunTest {
         listFull();
         errorsAheadOfFull();
         formDone();
+        argumentsGo();
         closureCounts();
         continuationCounts();
         noProcedures();
@@ -167,6 +170,37 @@ public final class EdgeRunTest {
         Check.due("the numbers", Check.shown(x), "(-16384 -16383 -16381 -16000)");
     }
 
+    /** The word of -16384 is 32769, the first object's place and 1. */
+    private static void oddWordsReachNothing() {
+        Check.sentence("(Words that are even and places where the heap has objects are meant.)");
+        SchemeEleven x = Check.loaded("(list) (define l '(-16384)) (define (g) (g)) (g)");
+        Check.due("the first object is a push", x.run(3) == 2 && x.word(HEAP) == 49, true);
+        for (int i = 0; i < 400 && x.look(4) == 0; i++) {
+            x.run(20);
+        }
+        Check.due("packed", x.look(4), 1);
+        Check.due("the first object is the closure", x.word(HEAP), 50);
+        Check.due("the number stays", x.word(1024 + 6 * 57 + 2), 32769);
+    }
+
+    /** R4 is the place of a rib here, which nothing else reaches. */
+    private static void otherRegistersStay() {
+        Check.sentence("what isn't REACHED from R0 .. R3 and the words of STATICS by words of objects goes");
+        SchemeEleven x = Check.loaded("(((lambda (a) (lambda () (set! a 1))) 5)) (define (g) (g)) (g)");
+        for (int i = 0; i < 100 && x.look(7) < 1; i++) {
+            x.run(1);
+        }
+        Check.due("R4", x.register(4), HEAP + 2 * (5 + 3 + 3 + 3));
+        // 28 words, 1,632 turns of five and a push; the call needs two words more
+        x.run(4 + 4 * 1632 + 3);
+        Check.due("not packed", x.look(4), 0);
+        Check.due("one word is left", x.look(3), HEAP_END - 2);
+        x.run(1);
+        Check.due("packed", x.look(4), 1);
+        Check.due("closure, rib, push, rib", x.look(3), HEAP + 2 * (3 + 2 + 3 + 2));
+        Check.due("R4 doesn't follow", x.register(4), HEAP + 2 * (5 + 3 + 3 + 3));
+    }
+
     private static SchemeEleven counted(int n) {
         return Check.loaded("(define l '()) (define (g n) (if (= n 0) 0 (begin (set! l (cons n l)) (g (- n 1))))) (g " + n + ")");
     }
@@ -195,16 +229,25 @@ public final class EdgeRunTest {
         SchemeEleven x = Check.loaded(keeps[i]
             + "(define l '()) (define (g n) (if (= n 0) 0 (begin (set! l (cons n l)) (g (- n 1))))) (g " + pairs + ")");
         Check.due("room for " + free + " words is made", Check.finish(x), 1);
+        int packs = x.look(4);
+        for (int j = 0; j < 20 && x.look(4) == packs; j++) {
+            Check.load(x, "(list)");
+            x.run(20000);
+        }
+        // one pair that nothing reaches is left, so that the last objects of a form fit behind a packing alone
+        Check.due("words in the heap", x.look(3), HEAP_END - 2 * free + 6);
         return x;
     }
 
     /** With just so many words the form ends with the error (0: none), with one less by 6, having made some. */
     private static void fits(String form, int need, int error, int made) {
         SchemeEleven x = left(need);
+        int packs = x.look(4);
         Check.load(x, form);
         Check.due("with " + need + " words " + form, Check.finish(x), error == 0 ? 1 : 3);
         Check.due("its error", x.look(6), error);
-        Check.due("packed", x.look(4) > 0, true);
+        Check.due("packed once", x.look(4), packs + 1);
+        Check.due("just full", x.look(3), HEAP_END);
         fails(form, need - 1, made);
     }
 
@@ -262,7 +305,13 @@ public final class EdgeRunTest {
 
     private static void consFull() {
         Check.sentence("then ERROR 6: 0 cons 2");
-        fits("(newline 1 2 (cons 3 4))", 26, 3, 23);
+        SchemeEleven y = left(26);
+        int packs = y.look(4);
+        Check.load(y, "(newline 1 2 (cons 3 4))");
+        Check.due("to the end of cons", y.run(16), 2);
+        Check.due("packed once", y.look(4), packs + 1);
+        Check.due("just full", y.look(3), HEAP_END);
+        Check.due("the pair", Check.shown(y), "(3 . 4)");
         SchemeEleven x = fails("(newline 1 2 (cons 3 4))", 25, 23);
         Check.due("VAL stays", x.register(0), 9);
         Check.due("ARGS stay", x.word(x.register(3) + 2), 9);
@@ -320,6 +369,16 @@ public final class EdgeRunTest {
         Check.due("what it gives", Check.shown(x), "2");
     }
 
+    private static void argumentsGo() {
+        Check.sentence("F a PRIMITIVE: VAL becomes what it gives, ARGS (), then as RETURN (not 19, 20)");
+        for (String form : new String[] {"(cons 1 2)", "(car '(1))", "(eq? 1 2)", "(pair? 1)", "(+ 1 2)", "(< 1 2)", "(newline)", "(list 1 2)", "(read)", "(not 1)"}) {
+            SchemeEleven x = Check.loaded(form);
+            Check.due("run of " + form, Check.finish(x), 1);
+            Check.due("ARGS of " + form, x.register(3), 6);
+            Check.due("CONT of " + form, x.register(2), 0);
+        }
+    }
+
     private static String lambda(String names, int count) {
         return "((lambda " + names + " 'in)" + Check.times(" 1", count) + ")";
     }
@@ -351,6 +410,8 @@ public final class EdgeRunTest {
         Check.sentence("F a CONTINUATION: it takes one (else ERROR 3)");
         Check.errs("(call/cc (lambda (k) (k)))", 3);
         Check.gives("(call/cc (lambda (k) (k 1)))", "1");
+        Check.gives("(list 1 (call/cc (lambda (k) (apply k '(5)))))", "(1 5)");
+        Check.errs("(call/cc (lambda (k) (apply k '())))", 3);
         Check.errs("(call/cc (lambda (k) (k 1 2)))", 3);
     }
 
@@ -534,12 +595,16 @@ public final class EdgeRunTest {
         Check.due("error", x.look(6), 7);
         Check.due("VAL", Check.shown(x), "bad");
         Check.due("ARGS stay", x.word(x.register(3) + 2), x.register(0));
+        SchemeEleven y = Check.loaded("(apply error '(5))");
+        Check.finish(y);
+        Check.due("VAL by apply", Check.shown(y), "5");
         Check.errs("(error)", 3);
         Check.errs("(error 1 2)", 3);
     }
 
     private static void writtenWords() {
         Check.sentence("a NUMBER by its digits, a - ahead; #t #f (); a SYMBOL by its name; #u nothing; #p a procedure; another word nothing");
+        Check.writes("(display 10000) (display -10000) (display 9999) (display 1000) (display 100) (display 99)", "10000-100009999100010099");
         Check.writes("(display 16383) (display -16384) (display 0) (display -1) (display 10)", "16383-163840-110");
         Check.writes("(display 'abcdefghijklm) (display '-) (display #t) (display #f) (display '()) (display (if #f 1))", "abcdefghijklm-#t#f()#u");
         Check.writes("(display cons) (display read) (display (lambda () 1)) (display (call/cc (lambda (k) k)))", "#p#p#p#p");
