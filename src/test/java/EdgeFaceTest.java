@@ -139,6 +139,18 @@ public final class EdgeFaceTest {
         x.feed(0x31203220, 0x33203420, 0x35203620, 0x37203820, 0x39203020);
         Check.due("end(0)", x.end(0), true);
         Check.due("load of nothing", x.load(), 5);
+        // what lay behind the first n bytes is no part of a token
+        String[] texts = {"-5", "#tt", "'abc", "165", "- 5", "(1) ;\n2"};
+        int[] ends = {1, 2, 3, 2, 1, 5};
+        String[] gives = {"#p", "#t", "ab", "16", "#p", "1"};
+        for (int i = 0; i < texts.length; i++) {
+            SchemeEleven y = new SchemeEleven();
+            Check.tape(y, texts[i]);
+            y.end(ends[i]);
+            Check.due("load of " + ends[i] + " bytes of " + texts[i], y.load(), 1);
+            y.run(1);
+            Check.due("what it is", Check.shown(y), gives[i]);
+        }
     }
 
     private static void loadEmpty() {

@@ -17,6 +17,8 @@ public final class EdgeFullTest {
         namesOfEachText();
         macros();
         parts();
+        allParts();
+        manyDatums();
         partsOfEachSort();
         toldAnew();
         constantPairs();
@@ -296,8 +298,21 @@ public final class EdgeFullTest {
         return "(syntax-rules () ((_) (begin " + Check.times("1 ", numbers) + ")))";
     }
 
+    /** The numbers of p are 1, those of q 2, those of o 3. */
     private static String told(String name, int numbers) {
-        return "(define-syntax " + name + " " + rulesWith(numbers) + ")";
+        return "(define-syntax " + name + " " + rulesWith(numbers).replace("1", String.valueOf(1 + "pqor".indexOf(name))) + ")";
+    }
+
+    /** All macros still give what is due, whatever was told behind them. */
+    private static void rulesHold(SchemeEleven x, String names) {
+        for (int i = 0; i < names.length(); i++) {
+            Check.load(x, "(" + names.charAt(i) + ")");
+            Check.due("run of " + names.charAt(i), Check.finish(x), 1);
+            Check.due("what it gives", Check.shown(x), String.valueOf(1 + "pqor".indexOf(names.charAt(i))));
+        }
+        Check.load(x, "(let* ((a 4) (b a)) (cond (#f 1) (else (and a (or #f (letrec ((f (lambda () b))) (list (f) a)))))))");
+        Check.due("run of the prelude's", Check.finish(x), 1);
+        Check.due("what they give", Check.shown(x), "(4 4)");
     }
 
     /** A new object in whose rules just so many parts, an even number, are free. */
@@ -309,6 +324,7 @@ public final class EdgeFullTest {
         Check.due("many parts", Check.load(x, told("p", most)), 1);
         Check.due("an odd rest", left % 2, 1);
         Check.due("the others", Check.load(x, told("q", (left - partsOf(rulesWith(0))) / 2)), 2);
+        Check.finish(x);
         return x;
     }
 
@@ -317,11 +333,38 @@ public final class EdgeFullTest {
         int free = partsOf(rulesWith(0)) + 1;
         SchemeEleven x = withFree(free);
         Check.faults(x, " " + told("o", 1), 4, 1);
-        Check.due("2,999 parts", Check.load(x, told("o", 0)), 3);
+        Check.due("2,999 parts", Check.load(x, told("o", 0)), 1);
         Check.faults(x, told("r", 0), 4, 0);
         Check.faults(x, "(define-syntax r (syntax-rules ()))", 4, 0);
         Check.faults(x, "(define-syntax r (syntax-rule ()))", 3, 17);
-        Check.due("macros of let-syntax don't count", Check.load(x, "(let-syntax ((m " + rulesWith(300) + ")) (m))"), 4);
+        Check.due("macros of let-syntax don't count", Check.load(x, "(let-syntax ((m " + rulesWith(300) + ")) (m))"), 2);
+    }
+
+    private static void allParts() {
+        Check.sentence("more than 3,000 parts of all these sorts, NAMES too, in all their RULES");
+        SchemeEleven x = withFree(0);
+        Check.faults(x, "(define-syntax r (syntax-rules ()))", 4, 0);
+        rulesHold(x, "pq");
+        Check.load(x, told("p", 599));
+        rulesHold(x, "pq");
+        Check.faults(x, told("p", 601), 4, 0);
+        rulesHold(x, "pq");
+        Check.due("all again", Check.load(x, told("p", 600)), 1);
+        rulesHold(x, "pq");
+    }
+
+    /** 39 signs of quote and a number are 158 datums by 40 bytes; uses make 4,000 more. */
+    private static void manyDatums() {
+        Check.sentence("at most 2,000 bytes");
+        SchemeEleven x = new SchemeEleven();
+        String list = "(begin " + Check.times("1 ", 99) + ")";
+        String last = "(list " + Check.times("2 ", 28) + "(begin" + Check.times(" 3", 57) + " 4))";
+        Check.load(x, macro("m", "() ((_) " + list + ")") + macro("n", "() ((_) " + last + ")") + macro("i", "() ((_ a ...) 1)"));
+        Check.finish(x);
+        String text = "(i " + Check.times(Check.times("'", 39) + "1", 48) + ")" + Check.times("(m)", 19) + "(n)";
+        Check.due("load", Check.load(x, text), 21);
+        Check.due("run", Check.finish(x), 1);
+        Check.due("what the last use gives", Check.shown(x), "(" + Check.times("2 ", 28) + "4)");
     }
 
     private static void partsOfEachSort() {
@@ -334,7 +377,7 @@ public final class EdgeFullTest {
             Check.faults(x, "(define-syntax o (syntax-rules () ((_ " + one + ") 1)))", 4, 0);
             Check.faults(x, "(define-syntax o (syntax-rules (x) ((_) " + one + ")))", 4, 0);
             Check.faults(x, "(define-syntax o (syntax-rules () ((_) (1 . " + one + "))))", 4, 0);
-            Check.due("just so many", Check.load(x, "(define-syntax o (syntax-rules () ((_) " + one + ")))"), 3);
+            Check.due("just so many", Check.load(x, "(define-syntax o (syntax-rules () ((_) " + one + ")))"), 1);
         }
     }
 
@@ -345,13 +388,20 @@ public final class EdgeFullTest {
         Check.load(x, told("o", 0));
         Check.faults(x, told("o", 1), 4, 0);
         Check.faults(x, told("p", 601), 4, 0);
-        Check.due("the same size", Check.load(x, told("p", 600)), 4);
-        Check.due("smaller", Check.load(x, told("p", 500)), 5);
-        Check.due("so there is room", Check.load(x, told("o", 100)), 6);
+        Check.due("the same size", Check.load(x, told("p", 600)), 2);
+        Check.due("smaller", Check.load(x, told("p", 500)), 3);
+        rulesHold(x, "pq");
+        Check.due("so there is room", Check.load(x, told("o", 100)), 1);
+        rulesHold(x, "pqo");
         Check.faults(x, told("o", 101), 4, 0);
-        Check.due("in one text", Check.load(x, told("o", 0) + told("p", 600)), 8);
+        Check.due("in one text", Check.load(x, told("o", 1) + told("p", 599)), 2);
+        rulesHold(x, "pqo");
         Check.faults(x, told("p", 601) + told("o", 0), 4, 0);
-        Check.due("let as well", Check.load(x, "(define-syntax let (syntax-rules ()))" + told("p", 620)), 10);
+        rulesHold(x, "o");
+        Check.due("let as well", Check.load(x, "(define-syntax let (syntax-rules ()))" + told("p", 620)), 2);
+        Check.due("room for the words", Check.load(x, "(list (q) (o) (and 4 (or 5)))"), 3);
+        Check.due("run", Check.finish(x), 1);
+        Check.due("what they give", Check.shown(x), "(2 3 5)");
     }
 
     private static void constantPairs() {

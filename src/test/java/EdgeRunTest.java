@@ -16,6 +16,7 @@ public final class EdgeRunTest {
         oddWordsStay();
         oddWordsReachNothing();
         otherRegistersStay();
+        objectsFollow();
         packedToTheLast();
         pushFull();
         frameFull();
@@ -199,6 +200,29 @@ public final class EdgeRunTest {
         Check.due("packed", x.look(4), 1);
         Check.due("closure, rib, push, rib", x.look(3), HEAP + 2 * (3 + 2 + 3 + 2));
         Check.due("R4 doesn't follow", x.register(4), HEAP + 2 * (5 + 3 + 3 + 3));
+    }
+
+    /** Many turns, so that the heap is packed at each of the objects that a turn makes. */
+    private static void follows(String text, String want) {
+        SchemeEleven x = Check.loaded(text);
+        Check.due("run of " + text, Check.finish(x), 1);
+        Check.due("packed often", x.look(4) > 15, true);
+        Check.due(text, Check.shown(x), want);
+    }
+
+    private static void objectsFollow() {
+        Check.sentence("all these words that are places in the heap follow");
+        follows("(define (lp n) (if (= n 0) 'end (call/cc (lambda (k) (lp (- n 1)))))) (lp 5000)", "end");
+        follows("(define (lp n) (if (= n 0) 'end (begin (call/cc (lambda (k) (k (list n)))) (lp (- n 1))))) (lp 3000)", "end");
+        follows("(define (lp n a) (if (= n 0) a (lp (- n 1) (list (car (cdr a)) (list n) (list n n) (list n n n) (list 4) (list 5)))))"
+            + "(lp 2000 '(1 2))", "((2) (1) (1 1) (1 1 1) (4) (5))");
+        follows("(define (lp n a) (if (= n 0) a (lp (- n 1) (cons (list n) (cons (list 2) '()))))) (lp 3000 0)", "((1) (2))");
+        follows("(define (f a . r) (list a r)) (define (lp n a) (if (= n 0) a (lp (- n 1) (f (list n) (list 7) (list 8) (list 9)))))"
+            + "(lp 2000 0)", "((1) ((7) (8) (9)))");
+        follows("(define (f a . r) (list a r)) (define (lp n a) (if (= n 0) a (lp (- n 1) (apply f (list (list n) (list 7) (list 8) (list 9))))))"
+            + "(lp 2000 0)", "((1) ((7) (8) (9)))");
+        follows("(define (m a b c) (lambda () (list a b c))) (define (lp n f) (if (= n 0) (f) (lp (- n 1) (m (list n) (list 2) (list 3)))))"
+            + "(lp 2000 0)", "((1) (2) (3))");
     }
 
     private static SchemeEleven counted(int n) {

@@ -44,6 +44,8 @@ public final class EdgeTextTest {
         Check.due("its last letter", x.letter(x.look(5) - 1, 12), 'm');
         reads(Check.times(" ", 1995) + "16383", 1);
         reads(Check.times(" ", 1998) + "#t", 1);
+        reads(Check.times(" ", 1999) + "-", 1);
+        Check.faults(Check.times(" ", 1999) + "#", 1, 1999);
     }
 
     private static void everyByte() {
