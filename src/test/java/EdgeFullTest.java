@@ -318,6 +318,11 @@ public final class EdgeFullTest {
     /** A new object in whose rules just so many parts, an even number, are free. */
     private static SchemeEleven withFree(int free) {
         SchemeEleven x = new SchemeEleven();
+        fillRules(x, free);
+        return x;
+    }
+
+    private static void fillRules(SchemeEleven x, int free) {
         int left = 3000 - preludeParts() - free;
         int most = 600;
         left -= partsOf(rulesWith(most));
@@ -325,7 +330,6 @@ public final class EdgeFullTest {
         Check.due("an odd rest", left % 2, 1);
         Check.due("the others", Check.load(x, told("q", (left - partsOf(rulesWith(0))) / 2)), 2);
         Check.finish(x);
-        return x;
     }
 
     private static void parts() {
@@ -350,6 +354,11 @@ public final class EdgeFullTest {
         Check.faults(x, told("p", 601), 4, 0);
         rulesHold(x, "pq");
         Check.due("all again", Check.load(x, told("p", 600)), 1);
+        rulesHold(x, "pq");
+        x.reset();
+        fillRules(x, 0);
+        Check.faults(x, told("p", 601), 4, 0);
+        Check.faults(x, "(define-syntax r (syntax-rules ()))", 4, 0);
         rulesHold(x, "pq");
     }
 

@@ -68,6 +68,10 @@ public final class EdgeSpreadTest {
         for (String keyword : KEYWORDS) {
             refused(keyword, "(set! " + keyword + " 1)", "(" + keyword + ")");
             Check.gives(macro(keyword, "() ((_) 7) ((_ a) '8)") + "(" + keyword + ")", "7");
+            SchemeEleven x = Check.loaded(macro(keyword, "() ((_) 7) ((_ a) '8)"));
+            Check.load(x, "(" + keyword + ")");
+            Check.due("run of the next text", Check.finish(x), 1);
+            Check.due(keyword + " of the next text", Check.shown(x), "7");
         }
     }
 
@@ -382,6 +386,14 @@ public final class EdgeSpreadTest {
         behind(m, "(m () (1))", 3, 0);
         behind(m, "(m (1) ())", 3, 0);
         behind(m, " (m (1 2) (3))", 3, 1);
+        String three = macro("h", "() ((_ (a ...) (b ...) (c ...)) '((a b c a b c) ...))");
+        Check.gives(three + "(list (h () () ()) (h (1 2) (3 4) (5 6)))", "(() ((1 3 5 1 3 5) (2 4 6 2 4 6)))");
+        behind(three, "(h (1) (2) ())", 3, 0);
+        behind(three, "(h (1) () (3))", 3, 0);
+        behind(three, "(h () (2) (3))", 3, 0);
+        String inner = macro("j", "() ((_ ((a ...) (b ...) (c ...)) ...) '(((a b c a) ...) ...))");
+        Check.gives(inner + "(j ((1) (2) (3)) (() () ()) ((4 5) (6 7) (8 9)))", "(((1 2 3 1)) () ((4 6 8 4) (5 7 9 5)))");
+        behind(inner, "(j ((1) (2) (3)) ((4 5) (6 7) (8)))", 3, 0);
         String n = macro("n", "() ((_ (a ...) ...) '((a ...) ...))") + macro("k", "() ((_ ((a ...) ...) ((b ...) ...)) '(((a b) ...) ...))");
         Check.gives(n + "(list (n) (n ()) (n (1) () (2 3)))", "(() (()) ((1) () (2 3)))");
         Check.gives(n + "(list (k () ()) (k (()) (())) (k ((1) (2 3)) ((4) (5 6))))", "(() (()) (((1 4)) ((2 5) (3 6))))");
@@ -395,6 +407,8 @@ public final class EdgeSpreadTest {
         Check.gives(macro("m", "() ((_ e) (let ((t 1)) (list t e)))") + "(let ((t 2)) (m t))", "(1 2)");
         Check.gives(macro("m", "() ((_ e) (let ((t 1)) (list t e)))") + "(m (m 5))", "(1 (1 5))");
         Check.gives(macro("m", "() ((_) (m t)) ((_ a) (lambda (a t) (list a t)))") + "((m) 1 2)", "(1 2)");
+        // the alias t of the second use is another one, though it is the first that either makes
+        Check.gives(macro("n", "() ((_ f g) (g f t 0)) ((_ f x z) ((f (x t) (list x t)) 1 2))") + "(n lambda n)", "(1 2)");
         Check.sentence("In (quote D) each ALIAS is its SYMBOL at last");
         Check.gives(macro("m", "() ((_ a) '(a b (c . d) 1))") + macro("n", "() ((_) (m e))") + "(n)", "(e b (c . d) 1)");
         Check.gives(macro("m", "() ((_) (eq? 'a 'a))") + "(m)", "#t");
