@@ -23,6 +23,7 @@ public final class EdgeFullTest {
         toldAnew();
         constantPairs();
         codeWords();
+        manyLambdas();
         codeWordsOfUses();
         firstFault();
         formsInOrder();
@@ -480,6 +481,20 @@ public final class EdgeFullTest {
         wordPlaces("(car  (lambda (b)  b))", 1, 1, 1, 1, 0, 6, 6, 0, 0, 6, 19, 19, 19);
         wordPlaces("(lambda (b)  (lambda ()  (set! b  1)))", 0, 0, 0, 0, 13, 13, 13, 13, 34, 34, 25, 25, 25, 25, 25, 25, 25);
         wordPlaces("(let-syntax ()  1  2)", 16, 16, 19, 19, 19);
+    }
+
+    /** 9,000 lambdas in one form: the words of their closes alone have no room. */
+    private static void manyLambdas() {
+        Check.sentence("or for a word of CODE (at the E or FORM whose word it is");
+        SchemeEleven x = Check.loaded(TEN);
+        String some = "(b (b (begin " + Check.times("(lambda()1)", 45) + ")))";
+        int fit = (32768 - x.look(2)) / 4;
+        int at = 6 + some.length() + 13 + (fit - 4500) % 45 * 11;
+        Check.faults(x, "(begin" + some + some + ")", 4, at);
+        // 9,001 words leave 3,263 for those of the lambdas: 815 of four words, and three
+        Check.faults(x, some, 4, 13 + 815 % 45 * 11 + 9);
+        Check.due("2,000 lambdas", Check.load(x, some.replace(Check.times("(lambda()1)", 45), Check.times("(lambda()1)", 20))), 3);
+        Check.due("their words", x.look(2), 8192 + 2 * (18 + 6 + 2000 * 6 + 1));
     }
 
     private static void codeWordsOfUses() {

@@ -407,6 +407,7 @@ public final class EdgeSpreadTest {
         Check.gives(macro("m", "() ((_ e) (let ((t 1)) (list t e)))") + "(let ((t 2)) (m t))", "(1 2)");
         Check.gives(macro("m", "() ((_ e) (let ((t 1)) (list t e)))") + "(m (m 5))", "(1 (1 5))");
         Check.gives(macro("m", "() ((_) (m t)) ((_ a) (lambda (a t) (list a t)))") + "((m) 1 2)", "(1 2)");
+        Check.gives(macro("m", "() ((_ f e) ((f (t) (list t e)) 5))") + "(m lambda 7)", "(5 7)");
         // the alias t of the second use is another one, though it is the first that either makes
         Check.gives(macro("n", "() ((_ f g) (g f t 0)) ((_ f x z) ((f (x t) (list x t)) 1 2))") + "(n lambda n)", "(1 2)");
         Check.sentence("In (quote D) each ALIAS is its SYMBOL at last");
