@@ -1,6 +1,7 @@
 /** The edges that parts 4 and 5 of the document name: shapes of forms, rules, uses, and what is full. */
 public final class EdgeSpreadTest {
     public static void main(String[] args) {
+        scopes();
         keywords();
         ninthName();
         quotes();
@@ -62,6 +63,16 @@ public final class EdgeSpreadTest {
     }
 
     private static final String[] KEYWORDS = {"quote", "if", "set!", "lambda", "begin", "define", "define-syntax", "let-syntax"};
+
+    /** Lambdas' words come behind all others, but each has the scopes in which it stands. */
+    private static void scopes() {
+        Check.sentence("WHAT A NAME MEANS: the first in its SCOPES told for just it");
+        Check.gives("(define a 7) (define b 8) (list ((lambda (a) a) 1) ((lambda () a)) ((lambda (b) (list a b)) 2) ((lambda () b)))", "(1 7 (7 2) 8)");
+        Check.gives("(define b 8) (define c 9) ((lambda (a) (list ((lambda (b) (list a b)) 2) ((lambda (c) (list a b c)) 3) ((lambda () c)))) 1)", "((1 2) (1 8 3) 9)");
+        Check.gives("((lambda (a) ((lambda (a) ((lambda () (set! a (+ a 1)) a))) (+ a 10))) 1)", "12");
+        Check.gives("(define a 7) (let-syntax ((m (syntax-rules () ((_) a)))) (list (m) ((lambda (a) (list a (m))) 1) ((lambda () (m)))))", "(7 (1 7) 7)");
+        Check.gives("(define (m) 5) (list (let-syntax ((m (syntax-rules () ((_) 1)))) ((lambda () (m)))) (m) ((lambda () (m))))", "(1 5 5)");
+    }
 
     private static void keywords() {
         Check.sentence("a KEYWORD (the first eight SYMBOLS, unless define-syntax told a macro of that name)");
@@ -153,6 +164,7 @@ public final class EdgeSpreadTest {
         Check.sentence("the MACROS are told in one SCOPE for the E alone (of two of one NAME the first counts; they don't see one another)");
         String one = "(syntax-rules () ((_) 1))";
         Check.gives("(let-syntax ((a " + one + ") (a (syntax-rules () ((_) 2)))) (a))", "1");
+        Check.gives("(let-syntax ((a " + one + ") (b (syntax-rules () ((_) 2))) (b (syntax-rules () ((_) 3)))) (list (a) (b)))", "(1 2)");
         Check.faults("(let-syntax ((a " + one + ") (a 3)) (a))", 3, 46);
         Check.errs("(let-syntax ((a " + one + ") (b (syntax-rules () ((_) (a))))) (b))", 1);
         Check.errs("(let-syntax ((b (syntax-rules () ((_) (a)))) (a " + one + ")) (b))", 1);
