@@ -38,6 +38,7 @@ public final class EdgeBenchTest {
         ones();
         carries();
         rotations();
+        carryStays();
         jumpByWayZero();
         subroutines();
         swap();
@@ -681,6 +682,33 @@ public final class EdgeBenchTest {
         single(0106200, 0, 0x1101, 0x1100, Z + V + C);
         single(0106300, 1, 0x1080, 0x1000, Z + V + C);
         single(0106300, 0, 0x1040, 0x1080, N + V);
+    }
+
+    private static void carryStays() {
+        Check.sentence("C stays, where it isn't told");
+        int[] codes = {010001, 0110001, 030001, 0130001, 040001, 0140001, 050001, 0150001, 05201, 0105201, 05301, 0105301, 074001, 06701};
+        for (int code : codes) {
+            for (int carry = 0; carry <= 1; carry++) {
+                for (int value : new int[] {0, 1, GREATEST, LEAST, ONES}) {
+                    words(code);
+                    regs(value, value, 0);
+                    x.set(8, V + carry);
+                    goes(octal(code), 0);
+                    Check.due(octal(code) + " of " + value + " with C " + carry, x.held(8) & C, carry);
+                }
+            }
+        }
+        Check.sentence("NZ: N is the highest bit of what comes, Z whether it is 0 (of bytes: of the byte)");
+        int[][] rows = {
+            {010001, 0, Z}, {010001, LEAST, N}, {010001, 1, 0}, {0110001, 0xFF00, Z}, {0110001, 0x0080, N}, {0110001, 0x807F, 0},
+            {0130001, 0xFF80, N}, {0130001, 0xFF00, Z}, {030001, 0x0100, 0}, {050001, 0x8000, N}, {0150001, 0x8000, Z},
+        };
+        for (int[] row : rows) {
+            words(row[0]);
+            regs(row[1], row[1], 0);
+            goes(octal(row[0]), 0);
+            reg(octal(row[0]) + " of " + row[1], 8, row[2]);
+        }
     }
 
     private static void jumpByWayZero() {

@@ -38,6 +38,8 @@ public final class EdgeRunTest {
         products();
         quotients();
         steps();
+        comparisons();
+        kinds();
         pairsOnly();
         applyBounds();
         emptyList();
@@ -545,6 +547,38 @@ public final class EdgeRunTest {
         Check.gives("(- -16384 -1 1)", "-16384");
         Check.errs("(* 128 128 0)", 5);
         Check.gives("(* 0 128 128)", "0");
+    }
+
+    private static void comparisons() {
+        Check.sentence("17 <, 18 = 2: NUMBERS");
+        Check.gives("(list (< -16384 16383) (< 16383 -16384) (< -1 0) (< 0 -1) (< 5 5) (< 4 5))", "(#t #f #t #f #f #t)");
+        Check.gives("(list (= -16384 -16384) (= 16383 -16384) (= 0 0) (= 0 1) (= -1 1))", "(#t #f #t #f #f)");
+        for (String no : new String[] {"'a", "#t", "'()", "'(1)", "car"}) {
+            for (String f : new String[] {"<", "=", "quotient", "+", "-", "*"}) {
+                Check.errs("(" + f + " 1 " + no + ")", 4);
+                Check.errs("(" + f + " " + no + " 1)", 4);
+            }
+        }
+        Check.sentence("5 eq? 2: whether one word");
+        Check.gives("(list (eq? 16383 16383) (eq? -1 1) (eq? '() '()) (eq? (list) '()) (eq? 'a 'a) (eq? '(1) '(1)) (eq? car car) (eq? #f '()))",
+            "(#t #f #t #t #t #f #t #f)");
+    }
+
+    private static void kinds() {
+        Check.sentence("6 pair?, 7 null?, 8 number?, 9 symbol?, 10 procedure? (PRIMITIVE, CLOSURE, CONTINUATION), 11 boolean? 1");
+        String[] values = {
+            "'(1)", "(list 1)", "'()", "0", "-16384", "16383", "'a", "cons", "read", "(lambda () 1)", "(call/cc (lambda (k) k))", "#t", "#f", "(if #f 1)",
+        };
+        String[] asked = {"pair?", "null?", "number?", "symbol?", "procedure?", "boolean?"};
+        String kinds = "PP-NNNSFFFFBB.";
+        String of = "P-NSFB";
+        for (int i = 0; i < values.length; i++) {
+            for (int j = 0; j < asked.length; j++) {
+                Check.gives("(" + asked[j] + " " + values[i] + ")", kinds.charAt(i) == of.charAt(j) ? "#t" : "#f");
+            }
+        }
+        Check.sentence("23 not 1: whether #f");
+        Check.gives("(list (not #f) (not #t) (not '()) (not 0) (not (if #f 1)))", "(#t #f #f #f #f)");
     }
 
     private static void pairsOnly() {
