@@ -46,6 +46,7 @@ public final class EdgeBenchTest {
         branchBounds();
         flagBounds();
         everyWord();
+        lastOfGroups();
         halts();
         traps();
         lastPlaces();
@@ -893,6 +894,38 @@ public final class EdgeBenchTest {
         int seven = 3 * 512 + 4 * 64;
         int high = 4 * 64 + 12 * 64 + 4096;
         Check.due("words that are none of these", illegal, 63 + 8 + 64 + 24 + 11 * 64 + seven + high);
+    }
+
+    /** The last word of each group has way 7 of PC: the word behind X tells the place. */
+    private static void lastOfGroups() {
+        Check.sentence("0003d SWAB: both bytes change places");
+        int[][] rows = {
+            {0377, 0x3412}, {05077, 0}, {05177, 0xEDCB}, {05277, 0x1235}, {05377, 0x1233}, {05477, 0xEDCC}, {05577, 0x1235}, {05677, 0x1233},
+            {05777, 0x1234}, {06077, 0x891A}, {06177, 0x2469}, {06277, 0x091A}, {06377, 0x2468}, {06777, 0}, {0105077, 0x1200}, {0106377, 0x1268},
+        };
+        for (int[] row : rows) {
+            words(row[0], 0, 0500);
+            x.poke(0500, 0x1234);
+            x.set(8, C);
+            goes(octal(row[0]), 0);
+            word(octal(row[0]), 0500, row[1]);
+            reg(octal(row[0]), 7, HERE + 4);
+        }
+        words(0177, 0, 0500);
+        goes("JMP @X(PC)", 0);
+        reg("JMP", 7, 0500);
+        words(04777, 0, 0500);
+        x.set(6, 0700);
+        goes("JSR PC,@X(PC)", 0);
+        reg("JSR", 7, 0500);
+        word("JSR", 0676, HERE + 4);
+        words(0400);
+        goes("BR 0", 0);
+        reg("BR 0", 7, HERE + 2);
+        words(03777);
+        x.set(8, Z);
+        goes("BLE -1", 0);
+        reg("BLE -1", 7, HERE);
     }
 
     private static void halts() {
