@@ -1137,9 +1137,11 @@ public final class SchemeEleven {
         void display(int value) {
             begin();
             part(value, 0);
-            for (int i = 0; i < length && i < line.length; i++) {
-                print(line[i]);
+            for (int i = 0; i < length && i < line.length && kept < paper.length; i++) {
+                paper[kept] = line[i];
+                kept++;
             }
+            written += length;
         }
 
         void print(int letter) {
