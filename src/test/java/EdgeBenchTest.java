@@ -973,6 +973,18 @@ public final class EdgeBenchTest {
             x.set(1, row[1]);
             goes(octal(row[0]) + " with R1 " + row[1], row[2]);
         }
+        int[] ofWords = {
+            05011, 05111, 05211, 05311, 05411, 05511, 05611, 05711, 06011, 06111, 06211, 06311, 011100, 010011, 021100, 020011, 031100, 030011,
+            041100, 040011, 051100, 050011, 061100, 060011, 0161100, 0160011, 070011, 071011, 072011, 074011, 0311, 06711,
+        };
+        for (int code : ofWords) {
+            for (int place : new int[] {1, 0501, 8191, 8192, 65534, 65535}) {
+                words(code);
+                x.set(1, place);
+                goes(octal(code) + " with R1 " + place, 3);
+                reg(octal(code), 1, place);
+            }
+        }
         for (int[] row : new int[][] {{8190, 0}, {8191, 3}, {8192, 3}, {65534, 3}, {65535, 3}}) {
             x = new SchemeEleven();
             x.poke(8190, 0240);

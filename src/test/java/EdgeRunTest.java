@@ -202,29 +202,41 @@ public final class EdgeRunTest {
         Check.due("packed", x.look(4), 1);
         Check.due("closure, rib, push, rib", x.look(3), HEAP + 2 * (3 + 2 + 3 + 2));
         Check.due("R4 doesn't follow", x.register(4), HEAP + 2 * (5 + 3 + 3 + 3));
+        // here the rib is reached by a closure, and goes down
+        SchemeEleven y = Check.loaded("(define h ((lambda (a) (lambda () (set! a 1))) 5)) (h) (define (g) (g)) (g)");
+        for (int i = 0; i < 400 && y.look(4) == 0; i++) {
+            y.run(20);
+        }
+        Check.due("packed", y.look(4), 1);
+        Check.due("the rib is the first object", y.word(HEAP), 3 + 16 * 3);
+        Check.due("its closure follows", y.word(HEAP + 6 + 4), HEAP);
+        Check.due("R4 doesn't follow", y.register(4), HEAP + 2 * (5 + 3 + 3 + 3));
     }
 
-    /** Many turns, so that the heap is packed at each of the objects that a turn makes. */
+    /** Behind lists of many lengths, so that the heap is packed at each of the objects that a turn makes. */
     private static void follows(String text, String want) {
-        SchemeEleven x = Check.loaded(text);
-        Check.due("run of " + text, Check.finish(x), 1);
-        Check.due("packed often", x.look(4) > 15, true);
-        Check.due(text, Check.shown(x), want);
+        for (int kept = 0; kept < 30; kept++) {
+            String keep = "(define keep '()) (define (b n) (if (= n 0) 0 (begin (set! keep (cons n keep)) (b (- n 1))))) (b " + kept + ")";
+            SchemeEleven x = Check.loaded(keep + text);
+            Check.due("run of " + text, Check.finish(x), 1);
+            Check.due("packed", x.look(4) > 1, true);
+            Check.due(text + " behind " + kept, Check.shown(x), want);
+        }
     }
 
+    /** Each turn looks at what it made: the lists (n) (-2) (-3), one behind the other. */
     private static void objectsFollow() {
         Check.sentence("all these words that are places in the heap follow");
-        follows("(define (lp n) (if (= n 0) 'end (call/cc (lambda (k) (lp (- n 1)))))) (lp 5000)", "end");
-        follows("(define (lp n) (if (= n 0) 'end (begin (call/cc (lambda (k) (k (list n)))) (lp (- n 1))))) (lp 3000)", "end");
-        follows("(define (lp n a) (if (= n 0) a (lp (- n 1) (list (car (cdr a)) (list n) (list n n) (list n n n) (list 4) (list 5)))))"
-            + "(lp 2000 '(1 2))", "((2) (1) (1 1) (1 1 1) (4) (5))");
-        follows("(define (lp n a) (if (= n 0) a (lp (- n 1) (cons (list n) (cons (list 2) '()))))) (lp 3000 0)", "((1) (2))");
-        follows("(define (f a . r) (list a r)) (define (lp n a) (if (= n 0) a (lp (- n 1) (f (list n) (list 7) (list 8) (list 9)))))"
-            + "(lp 2000 0)", "((1) ((7) (8) (9)))");
-        follows("(define (f a . r) (list a r)) (define (lp n a) (if (= n 0) a (lp (- n 1) (apply f (list (list n) (list 7) (list 8) (list 9))))))"
-            + "(lp 2000 0)", "((1) ((7) (8) (9)))");
-        follows("(define (m a b c) (lambda () (list a b c))) (define (lp n f) (if (= n 0) (f) (lp (- n 1) (m (list n) (list 2) (list 3)))))"
-            + "(lp 2000 0)", "((1) (2) (3))");
+        String look = "(define (is l n) (if (null? l) 0 (if (= (car (car l)) n) (is (cdr l) (if (= n -2) -3 -2)) (error l))))";
+        follows("(define (lp n) (if (= n 0) 'end (call/cc (lambda (k) (lp (- n 1)))))) (lp 1000)", "end");
+        follows(look + "(define (lp n) (if (= n 0) 'end (begin (is (call/cc (lambda (k) (k (list (list n) (list -2))))) n) (lp (- n 1))))) (lp 500)", "end");
+        follows(look + "(define (lp n) (if (= n 0) 'end (begin (is (list (list n) (list -2) (list -3)) n) (lp (- n 1))))) (lp 500)", "end");
+        follows(look + "(define (lp n) (if (= n 0) 'end (begin (is (cons (list n) (cons (list -2) (list (list -3)))) n) (lp (- n 1))))) (lp 500)", "end");
+        follows(look + "(define (f . r) r) (define (lp n) (if (= n 0) 'end (begin (is (f (list n) (list -2) (list -3)) n) (lp (- n 1))))) (lp 500)", "end");
+        follows(look + "(define (f a . r) (cons a r)) (define (lp n) (if (= n 0) 'end (begin (is (apply f (list (list n) (list -2) (list -3))) n)"
+            + "(lp (- n 1))))) (lp 500)", "end");
+        follows(look + "(define (m a b c) (lambda () (list a b c))) (define (lp n) (if (= n 0) 'end (begin (is ((m (list n) (list -2) (list -3))) n)"
+            + "(lp (- n 1))))) (lp 500)", "end");
     }
 
     private static SchemeEleven counted(int n) {

@@ -80,6 +80,7 @@ public final class EdgeSpreadTest {
             refused(keyword, "(set! " + keyword + " 1)", "(" + keyword + ")");
             Check.gives(macro(keyword, "() ((_) 7) ((_ a) '8)") + "(" + keyword + ")", "7");
             SchemeEleven x = Check.loaded(macro(keyword, "() ((_) 7) ((_ a) '8)"));
+            Check.load(x, Check.times("(list" + Check.times(" 1", 40) + ")", 10));
             Check.load(x, "(" + keyword + ")");
             Check.due("run of the next text", Check.finish(x), 1);
             Check.due(keyword + " of the next text", Check.shown(x), "7");
